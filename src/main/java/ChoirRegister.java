@@ -455,18 +455,37 @@ public final class ChoirRegister {
         trial.copyFrom(book);
         letter.goTo(0);
         for (int order = 0; order < MAX_LETTER && !letter.isAtEnd(); order++) {
-            if (!letter.readOrder() || !obey(letter.kind, letter.numbers)) {
+            if (!letter.readOrder() || refusalOf(letter.kind, letter.numbers) != ALLOWED) {
                 return order;
             }
+            obey(letter.kind, letter.numbers);
             letter.goTo(letter.at + 1);
         }
         return NONE;
     }
 
-    private boolean obey(int kind, int[] n) {
-        if (refusalOf(kind, n) != ALLOWED) {
-            return false;
+    private int refusalOf(int kind, int[] n) {
+        switch (kind) {
+            case ORDER_REGISTER:
+                return trial.refusalToEnrol(n[0], n[1], n[2], n[3], n[4]);
+            case ORDER_ANNOUNCE:
+                return trial.refusalToAddFeast(n[0], n[1]);
+            case ORDER_SET_LINE:
+                return trial.refusalToArrange(n[0], n[1], n[2], n[3], n[4]);
+            case ORDER_EXCUSE:
+                return trial.refusalToTakeNote(n[0], n[1], n[2]);
+            case ORDER_LEND:
+                return trial.refusalToSendAway(n[0], n[1], n[2]);
+            case ORDER_LEAVE:
+                return trial.refusalToDismiss(n[0]);
+            case ORDER_PASS_DAYS:
+                return trial.refusalToAdvance(n[0]);
+            default:
+                return NOT_NOW;
         }
+    }
+
+    private void obey(int kind, int[] n) {
         switch (kind) {
             case ORDER_REGISTER:
                 trial.enrol(n[0], n[1], n[2], n[3], n[4]);
@@ -490,29 +509,7 @@ public final class ChoirRegister {
                 trial.advance(n[0], lineup);
                 break;
             default:
-                return false;
-        }
-        return true;
-    }
-
-    private int refusalOf(int kind, int[] n) {
-        switch (kind) {
-            case ORDER_REGISTER:
-                return trial.refusalToEnrol(n[0], n[1], n[2], n[3], n[4]);
-            case ORDER_ANNOUNCE:
-                return trial.refusalToAddFeast(n[0], n[1]);
-            case ORDER_SET_LINE:
-                return trial.refusalToArrange(n[0], n[1], n[2], n[3], n[4]);
-            case ORDER_EXCUSE:
-                return trial.refusalToTakeNote(n[0], n[1], n[2]);
-            case ORDER_LEND:
-                return trial.refusalToSendAway(n[0], n[1], n[2]);
-            case ORDER_LEAVE:
-                return trial.refusalToDismiss(n[0]);
-            case ORDER_PASS_DAYS:
-                return trial.refusalToAdvance(n[0]);
-            default:
-                return NOT_NOW;
+                break;
         }
     }
 
@@ -1064,11 +1061,11 @@ public final class ChoirRegister {
         /** By how much the bound of a set falls when a singer is told a line, or told to have none. */
         private static int cost(int set, int able, int line) {
             int cost = (able & set) != 0 ? 1 : 0;
-            return line != NONE && !contains(set, line) ? cost + 1 : cost;
+            return line != NONE && (set & 1 << line) == 0 ? cost + 1 : cost;
         }
 
         private static boolean contains(int set, int line) {
-            return (set >> line & 1) != 0;
+            return (set & 1 << line) != 0;
         }
 
         private int countWhoCanSing(int set, int singers) {

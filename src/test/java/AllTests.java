@@ -1,10 +1,15 @@
-/** Runs all tests of the project; the one argument is the path of ChoirRegister.java. */
+/** Runs all tests of the project; the arguments are the paths of ChoirRegister.java and of the document. */
 public final class AllTests {
     private AllTests() {
     }
 
     public static void main(String[] args) throws java.io.IOException {
+        FaceTests.run(args[0], args[1]);
+        StateTests.run();
         SingerTests.run();
+        FeastTests.run();
+        LetterTests.run();
+        ModelTests.run();
         if (!Checks.report()) {
             System.exit(1);
         }
