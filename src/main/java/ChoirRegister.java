@@ -530,17 +530,17 @@ public final class ChoirRegister {
 
         void copyFrom(Roster other) {
             count = other.count;
-            System.arraycopy(other.height, 0, height, 0, MAX_SINGERS);
-            System.arraycopy(other.lowest, 0, lowest, 0, MAX_SINGERS);
-            System.arraycopy(other.highest, 0, highest, 0, MAX_SINGERS);
-            System.arraycopy(other.birthDay, 0, birthDay, 0, MAX_SINGERS);
-            System.arraycopy(other.breakDay, 0, breakDay, 0, MAX_SINGERS);
-            System.arraycopy(other.choir, 0, choir, 0, MAX_SINGERS);
-            System.arraycopy(other.fee, 0, fee, 0, MAX_SINGERS);
-            System.arraycopy(other.lastDayInChoir, 0, lastDayInChoir, 0, MAX_SINGERS);
-            System.arraycopy(other.lastDayAway, 0, lastDayAway, 0, MAX_SINGERS);
-            System.arraycopy(other.feastsSung, 0, feastsSung, 0, MAX_SINGERS);
-            System.arraycopy(other.descantsSung, 0, descantsSung, 0, MAX_SINGERS);
+            System.arraycopy(other.height, 0, height, 0, count);
+            System.arraycopy(other.lowest, 0, lowest, 0, count);
+            System.arraycopy(other.highest, 0, highest, 0, count);
+            System.arraycopy(other.birthDay, 0, birthDay, 0, count);
+            System.arraycopy(other.breakDay, 0, breakDay, 0, count);
+            System.arraycopy(other.choir, 0, choir, 0, count);
+            System.arraycopy(other.fee, 0, fee, 0, count);
+            System.arraycopy(other.lastDayInChoir, 0, lastDayInChoir, 0, count);
+            System.arraycopy(other.lastDayAway, 0, lastDayAway, 0, count);
+            System.arraycopy(other.feastsSung, 0, feastsSung, 0, count);
+            System.arraycopy(other.descantsSung, 0, descantsSung, 0, count);
         }
 
         boolean has(int singer) {
@@ -558,7 +558,7 @@ public final class ChoirRegister {
             lowest[singer] = low;
             highest[singer] = high;
             birthDay[singer] = bornOn;
-            // After an undo the row may still hold what an earlier singer left in it.
+            // The row may hold what an earlier singer left in it, who was undone.
             breakDay[singer] = NONE;
             choir[singer] = NONE;
             fee[singer] = 0;
@@ -631,9 +631,9 @@ public final class ChoirRegister {
 
         void copyFrom(Notes other) {
             count = other.count;
-            System.arraycopy(other.singers, 0, singers, 0, MAX_NOTES);
-            System.arraycopy(other.first, 0, first, 0, MAX_NOTES);
-            System.arraycopy(other.last, 0, last, 0, MAX_NOTES);
+            System.arraycopy(other.singers, 0, singers, 0, count);
+            System.arraycopy(other.first, 0, first, 0, count);
+            System.arraycopy(other.last, 0, last, 0, count);
         }
 
         boolean areFull() {
@@ -677,9 +677,9 @@ public final class ChoirRegister {
 
         void copyFrom(Calendar other) {
             count = other.count;
-            System.arraycopy(other.day, 0, day, 0, MAX_FEASTS);
-            System.arraycopy(other.rank, 0, rank, 0, MAX_FEASTS);
-            System.arraycopy(other.descant, 0, descant, 0, MAX_FEASTS);
+            System.arraycopy(other.day, 0, day, 0, count);
+            System.arraycopy(other.rank, 0, rank, 0, count);
+            System.arraycopy(other.descant, 0, descant, 0, count);
             for (int feast = 0; feast < count; feast++) {
                 System.arraycopy(other.places[feast], 0, places[feast], 0, LINES);
                 System.arraycopy(other.lowest[feast], 0, lowest[feast], 0, LINES);
@@ -709,12 +709,11 @@ public final class ChoirRegister {
             int feast = count;
             day[feast] = onDay;
             rank[feast] = ofRank;
-            descant[feast] = NONE;
-            // After an undo the rows may still hold what an earlier feast left in them.
+            // The rows may hold what an earlier feast left in them, which was undone. Who sang stays as it is:
+            // it is entered when the feast is held, and not asked for before.
             Arrays.fill(places[feast], 0);
             Arrays.fill(lowest[feast], 0);
             Arrays.fill(highest[feast], 0);
-            Arrays.fill(linesSung[feast], NONE);
             count++;
             return feast;
         }

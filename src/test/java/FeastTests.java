@@ -28,16 +28,8 @@ final class FeastTests {
         firstShortFeastIsTheEarliest();
         coinsAreSettled();
         borrowedSingersLeaveBeforeTheFeast();
+        twentyFeasts();
         unknownFeastsAreRefused();
-    }
-
-    private static void pass(ChoirRegister x, int days) {
-        int left = days;
-        while (left > 0) {
-            int now = Math.min(left, 99);
-            x.passDays(now);
-            left -= now;
-        }
     }
 
     private static void addSingers(ChoirRegister x, int[]... ranges) {
@@ -65,6 +57,8 @@ final class FeastTests {
         Checks.same("33: no places at first", 0, x.placesIn(0, 3));
         x.undo();
         Checks.same("7: undone", 2, x.feasts());
+        Checks.same("7: the day is free again", 2, x.announce(2, 2));
+        x.undo();
         x.passDays(1);
         Checks.same("30: also those that were held", 2, x.feasts());
         Checks.same("31: also of one that was held", 1, x.dayOf(1));
@@ -89,7 +83,7 @@ final class FeastTests {
         }
         Checks.refuses(x, NOT_NOW, "7: the twenty-first", () -> x.announce(200, 3));
         Checks.refuses(x, OUT_OF_RANGE, "7: the twenty-first, rank 0", () -> x.announce(200, 0));
-        pass(x, 99);
+        Calls.pass(x, 99);
         Checks.refuses(x, NOT_NOW, "7: held ones count", () -> x.announce(200, 3));
     }
 
@@ -159,7 +153,7 @@ final class FeastTests {
         for (int days : new int[] {0, 100, -1, Integer.MIN_VALUE, Integer.MAX_VALUE}) {
             Checks.refuses(x, OUT_OF_RANGE, "9: days " + days, () -> x.passDays(days));
         }
-        pass(x, 9990);
+        Calls.pass(x, 9990);
         Checks.refuses(x, NOT_NOW, "9: day 10000", () -> x.passDays(10));
         Checks.refuses(x, OUT_OF_RANGE, "9: days 100, too late as well", () -> x.passDays(100));
         Checks.same("9: up to day 9999", 1, x.passDays(9));
@@ -176,7 +170,7 @@ final class FeastTests {
         x.setLine(0, 1, 1, 20, 31);
         x.setLine(0, 2, 1, 20, 30);
         Checks.same("34: breaking before the range", ChoirRegister.BREAKING, x.whyNot(0, 0, 0));
-        pass(x, 300);
+        Calls.pass(x, 300);
         x.excuse(0, 360, 360);
         Checks.same("34: excused before breaking", ChoirRegister.EXCUSED, x.whyNot(0, 0, 0));
         Checks.same("34: not excused on the day after", ChoirRegister.BREAKING, x.whyNot(1, 0, 0));
@@ -457,6 +451,22 @@ final class FeastTests {
         Checks.same("48: was paid once", 3, x.fees());
         Checks.same("35: held, on the last day", 0, x.lineOf(0, 0));
         Checks.same("35: held, on the day after", -1, x.lineOf(1, 0));
+    }
+
+    private static void twentyFeasts() {
+        ChoirRegister x = new ChoirRegister();
+        addSingers(x, new int[] {10, 30}, new int[] {10, 30}, new int[] {10, 30});
+        for (int feast = 0; feast < 20; feast++) {
+            x.announce(50 - feast, 1);
+            x.setLine(feast, 0, feast == 0 ? 6 : 3, 10, 20);
+        }
+        Checks.same("43: the last of twenty", 0, x.firstShortFeast());
+        Checks.same("40: the last of twenty", 1, x.descantIn(0));
+        Checks.same("9: all twenty", 20, x.passDays(60));
+        Checks.same("40: the last of twenty, held", 1, x.descantIn(0));
+        Checks.same("28: all twenty", 20, x.feastsOf(2));
+        Checks.same("29: six of twenty", 6, x.descantsOf(2));
+        Checks.same("49: the last one was short", 3, x.fines());
     }
 
     private static void unknownFeastsAreRefused() {

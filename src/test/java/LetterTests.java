@@ -25,13 +25,6 @@ final class LetterTests {
         lettersDoNotBelongToTheState();
     }
 
-    static void write(ChoirRegister x, String letter) {
-        x.clearLetter();
-        for (int i = 0; i < letter.length(); i++) {
-            x.type(letter.charAt(i));
-        }
-    }
-
     private static void typeAnswersTheLength() {
         ChoirRegister x = new ChoirRegister();
         char[] any = {'j', ';', ' ', (char) 0, (char) 127, (char) 255, (char) 256, (char) 65535};
@@ -49,7 +42,7 @@ final class LetterTests {
     private static void clearLetterEmpties() {
         ChoirRegister x = new ChoirRegister();
         Checks.same("11: empty", 0, x.clearLetter());
-        write(x, "t5;");
+        Calls.write(x, "t5;");
         Checks.same("11: three signs", 3, x.clearLetter());
         Checks.same("11: empty again", 0, x.clearLetter());
         Checks.same("12: empty", 0, x.letterError());
@@ -58,7 +51,7 @@ final class LetterTests {
 
     private static void checkError(String letter, int want) {
         ChoirRegister x = new ChoirRegister();
-        write(x, letter);
+        Calls.write(x, letter);
         Checks.same("12: first error of " + letter, want, x.letterError());
     }
 
@@ -170,7 +163,7 @@ final class LetterTests {
     }
 
     private static void checkImpossible(ChoirRegister x, String letter, int want) {
-        write(x, letter);
+        Calls.write(x, letter);
         String before = Facts.of(x);
         Checks.same("13: " + letter, want, x.impossibleOrder());
         Checks.that("13: " + letter + " changed something", before.equals(Facts.of(x)));
@@ -202,7 +195,7 @@ final class LetterTests {
         checkImpossible(x, "t99", -1);
         checkImpossible(x, "t99;t1", 1);
         for (String letter : new String[] {"", "t", "t0", "t1;", "q"}) {
-            write(x, letter);
+            Calls.write(x, letter);
             Checks.refuses(x, NOT_NOW, "13: " + letter, () -> x.impossibleOrder());
             Checks.refuses(x, NOT_NOW, "14: " + letter, () -> x.carryOut());
         }
@@ -211,7 +204,7 @@ final class LetterTests {
     private static void carryOutIsOneAction() {
         ChoirRegister x = new ChoirRegister();
         x.passDays(3);
-        write(x, "j11h140r24-40b12;j40h170r8-30;f9*2;l0.1=2r10-20;t7");
+        Calls.write(x, "j11h140r24-40b12;j40h170r8-30;f9*2;l0.1=2r10-20;t7");
         Checks.same("14: five orders", 5, x.carryOut());
         Checks.same("14: recorded once", 2, x.recordedStates());
         Checks.same("14: singers", 2, x.singers());
@@ -230,12 +223,12 @@ final class LetterTests {
         ChoirRegister x = new ChoirRegister();
         x.register(20, 150, 10, 20, 0);
         for (String letter : new String[] {"x1", "j20h150r10-20;x0;x0", "t5;f5*1", "j20h150r10-20;x0;"}) {
-            write(x, letter);
+            Calls.write(x, letter);
             Checks.refuses(x, NOT_NOW, "14: " + letter, () -> x.carryOut());
         }
-        write(x, "j20h150r10-20;x1;x1");
+        Calls.write(x, "j20h150r10-20;x1;x1");
         Checks.same("14: what an order cannot do, is not half done", 2, x.impossibleOrder());
-        write(x, "t1");
+        Calls.write(x, "t1");
         Checks.same("14: after all this", 1, x.carryOut());
         Checks.same("14: one singer", 1, x.singers());
     }
@@ -251,7 +244,7 @@ final class LetterTests {
         x.lend(0, 4, 17);
         x.passDays(20);
         x.leave(0);
-        write(y, "j11h140r24-40b13;j20h170r8-30;f30*3;l0.2=4r9-29;n1:29-31;o0>4+17;t20;x0");
+        Calls.write(y, "j11h140r24-40b13;j20h170r8-30;f30*3;l0.2=4r9-29;n1:29-31;o0>4+17;t20;x0");
         Checks.same("14: eight orders", 8, y.carryOut());
         Checks.that("14: the same as the calls", Facts.ofState(x).equals(Facts.ofState(y)));
     }
@@ -260,7 +253,7 @@ final class LetterTests {
         ChoirRegister x = new ChoirRegister();
         x.takeSnapshot();
         x.passDays(1);
-        write(x, "t1;t1;t1;t1;t1;t1;t1;t1;t1;t1;t1;t1;t1;t1;t1;t1;t1;t1;t1;t1;t1;t1;t1;t1;t1;t12");
+        Calls.write(x, "t1;t1;t1;t1;t1;t1;t1;t1;t1;t1;t1;t1;t1;t1;t1;t1;t1;t1;t1;t1;t1;t1;t1;t1;t1;t12");
         Checks.same("14: twenty-six orders", 26, x.carryOut());
         x.undo();
         x.undo();

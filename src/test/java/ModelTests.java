@@ -96,6 +96,9 @@ final class ModelTests {
         if (kind == 1) {
             return greatest + 1;
         }
+        if (kind == 4 && lot.below(4) == 0) {
+            return lot.below(2) == 0 ? Integer.MIN_VALUE : Integer.MAX_VALUE;
+        }
         return kind == 2 ? least : kind == 3 ? greatest : lot.within(least, greatest);
     }
 

@@ -30,15 +30,6 @@ final class SingerTests {
         unknownSingersAreRefused();
     }
 
-    private static void pass(ChoirRegister x, int days) {
-        int left = days;
-        while (left > 0) {
-            int now = Math.min(left, 99);
-            x.passDays(now);
-            left -= now;
-        }
-    }
-
     private static void registerAnswersNumbers() {
         ChoirRegister x = new ChoirRegister();
         Checks.same("2: first", 0, x.register(7, 90, 0, 0, 0));
@@ -279,16 +270,16 @@ final class SingerTests {
     private static void agesGrowByTheDays() {
         ChoirRegister x = new ChoirRegister();
         x.register(10, 150, 0, 48, 0);
-        pass(x, 100);
+        Calls.pass(x, 100);
         x.register(10, 150, 0, 48, 0);
         x.borrow(0, 0, 150, 0, 48, 90);
         x.leave(0);
-        pass(x, 259);
+        Calls.pass(x, 259);
         Checks.same("20: the day before the birthday", 10, x.ageOf(0));
         x.passDays(1);
         Checks.same("20: also of one who has left", 11, x.ageOf(0));
         Checks.same("20: the later one", 10, x.ageOf(1));
-        pass(x, 99);
+        Calls.pass(x, 99);
         Checks.same("20: the later one, the day before", 10, x.ageOf(1));
         x.passDays(1);
         Checks.same("20: the later one's birthday", 11, x.ageOf(1));
@@ -313,7 +304,7 @@ final class SingerTests {
             Checks.same("34: singing on day " + days[i], why[i], x.whyNot(i, 0, 1));
         }
         for (int i = 0; i < days.length; i++) {
-            pass(x, days[i] - x.day());
+            Calls.pass(x, days[i] - x.day());
             Checks.same("21: lowest on day " + days[i], lowest[i], x.lowestNoteOf(0));
             Checks.same("22: highest on day " + days[i], highest[i], x.highestNoteOf(0));
         }
@@ -341,7 +332,7 @@ final class SingerTests {
         Checks.same("23: already of that age", -1, x.breakDayOf(2));
         Checks.same("23: older", -1, x.breakDayOf(3));
         Checks.same("23: no break age", -1, x.breakDayOf(4));
-        pass(x, 400);
+        Calls.pass(x, 400);
         Checks.same("23: began", 365, x.breakDayOf(1));
         x.leave(1);
         Checks.same("23: has left", 365, x.breakDayOf(1));
@@ -360,11 +351,11 @@ final class SingerTests {
         Checks.same("24: not one who has left", 3, x.nextToBreak());
         x.lend(3, 0, 10);
         Checks.same("24: also one who is away", 3, x.nextToBreak());
-        pass(x, 719);
+        Calls.pass(x, 719);
         Checks.same("24: tomorrow", 3, x.nextToBreak());
         x.passDays(1);
         Checks.same("24: not today", 1, x.nextToBreak());
-        pass(x, 360);
+        Calls.pass(x, 360);
         Checks.same("24: none left", -1, x.nextToBreak());
     }
 

@@ -83,7 +83,7 @@ final class StateTests {
 
     private static void everyActionIsRecorded() {
         ChoirRegister x = new ChoirRegister();
-        LetterTests.write(x, "t1");
+        Calls.write(x, "t1");
         x.takeSnapshot();
         Checks.Call[] actions = {
             () -> x.register(20, 150, 10, 20, 0), () -> x.borrow(0, 1, 150, 10, 20, 5), () -> x.lend(0, 1, 3),
@@ -106,7 +106,7 @@ final class StateTests {
         x.type('t');
         x.letterError();
         x.clearLetter();
-        LetterTests.write(x, "t1");
+        Calls.write(x, "t1");
         x.impossibleOrder();
         x.takeSnapshot();
         Checks.same("51: nothing more", 1, x.recordedStates());
@@ -159,8 +159,18 @@ final class StateTests {
         x.undo();
         x.undo();
         x.borrow(2, 5, 150, 10, 30, 9);
+        x.announce(1, 1);
+        x.setLine(0, 0, 1, 10, 20);
+        x.passDays(1);
+        Checks.same("15: a fee", 5, x.fees());
         x.undo();
+        x.undo();
+        x.undo();
+        x.undo();
+        Checks.same("15: nobody", 0, x.singers());
         x.register(20, 150, 10, 30, 0);
+        Checks.same("15: no feast sung", 0, x.feastsOf(0));
+        Checks.same("15: no descant sung", 0, x.descantsOf(0));
         Checks.same("15: own", -1, x.choirOf(0));
         Checks.same("15: never breaks", -1, x.breakDayOf(0));
         Checks.same("15: not away", -1, x.awayUntil(0));
@@ -174,6 +184,8 @@ final class StateTests {
         Checks.same("15: no places", 0, x.placesIn(0, 0));
         x.setLine(0, 1, 1, 10, 20);
         Checks.same("15: line 0 is low again", ChoirRegister.TOO_LOW, x.whyNot(0, 0, 0));
+        x.register(20, 150, 0, 0, 0);
+        Checks.same("15: and not high", 0, x.whyNot(0, 1, 0));
         x.passDays(30);
         Checks.same("15: no fee", 0, x.fees());
         Checks.same("15: one feast", 1, x.feastsOf(0));
