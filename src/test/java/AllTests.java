@@ -9,6 +9,13 @@ public final class AllTests {
         SingerTests.run();
         FeastTests.run();
         LetterTests.run();
+        RangeTests.run();
+        OrderTests.run();
+        CountTests.run();
+        DayTests.run();
+        LineupTests.run();
+        LetterEdgeTests.run();
+        RestoreTests.run();
         ModelTests.run();
         if (!Checks.report()) {
             System.exit(1);
