@@ -5,7 +5,7 @@ final class Calls {
     private Calls() {
     }
 
-    static void pass(ChoirRegister x, int days) {
+    static void pass(Register x, int days) {
         int left = days;
         while (left > 0) {
             int now = Math.min(left, MOST_DAYS);
@@ -14,7 +14,7 @@ final class Calls {
         }
     }
 
-    static void write(ChoirRegister x, String letter) {
+    static void write(Register x, String letter) {
         x.clearLetter();
         for (int i = 0; i < letter.length(); i++) {
             x.type(letter.charAt(i));

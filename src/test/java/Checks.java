@@ -28,8 +28,13 @@ final class Checks {
     }
 
     /** The call throws just this exception, and everything that the register tells stays as it was. */
-    static void refuses(ChoirRegister x, Class<? extends RuntimeException> want, String what, Call call) {
+    static void refuses(Register x, Class<? extends RuntimeException> want, String what, Call call) {
         String before = Facts.of(x);
+        throwsJust(want, what, call);
+        that(what + " changed something, though it is refused", before.equals(Facts.of(x)));
+    }
+
+    static void throwsJust(Class<? extends RuntimeException> want, String what, Call call) {
         Class<?> thrown = null;
         try {
             call.run();
@@ -37,7 +42,6 @@ final class Checks {
             thrown = e.getClass();
         }
         that(what + " threw " + thrown + ", due is " + want, thrown == want);
-        that(what + " changed something, though it is refused", before.equals(Facts.of(x)));
     }
 
     static boolean report() {

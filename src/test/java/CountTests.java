@@ -35,7 +35,7 @@ final class CountTests {
         theLastCall();
     }
 
-    private static void addSingers(ChoirRegister x, int count) {
+    private static void addSingers(Register x, int count) {
         for (int i = 0; i < count; i++) {
             x.register(20, 150, 10, 30, 0);
         }
@@ -44,7 +44,7 @@ final class CountTests {
     // ---- the register
 
     private static void noSingers() {
-        ChoirRegister x = new ChoirRegister();
+        Register x = new Register();
         Checks.same("18: nobody", 0, x.singers());
         Checks.same("24: nobody", -1, x.nextToBreak());
         x.announce(1, 3);
@@ -64,7 +64,7 @@ final class CountTests {
     }
 
     private static void oneSinger() {
-        ChoirRegister x = new ChoirRegister();
+        Register x = new Register();
         Checks.same("2: the first number", 0, x.register(11, 150, 0, 0, 12));
         Checks.same("18: one", 1, x.singers());
         Checks.same("24: one", 0, x.nextToBreak());
@@ -80,7 +80,7 @@ final class CountTests {
     }
 
     private static void thirtySingers() {
-        ChoirRegister x = new ChoirRegister();
+        Register x = new Register();
         addSingers(x, 29);
         Checks.same("2: the thirtieth", 29, x.register(70, 210, 48, 48, 0));
         Checks.same("18: thirty", 30, x.singers());
@@ -96,7 +96,7 @@ final class CountTests {
     }
 
     private static void theThirtiethIsBorrowed() {
-        ChoirRegister x = new ChoirRegister();
+        Register x = new Register();
         x.borrow(0, 1, 150, 10, 30, 5);
         addSingers(x, 28);
         Checks.same("4: the thirtieth", 29, x.borrow(4, 9, 150, 10, 30, 90));
@@ -109,7 +109,7 @@ final class CountTests {
     }
 
     private static void theThirtiethByLetter() {
-        ChoirRegister x = new ChoirRegister();
+        Register x = new Register();
         addSingers(x, 29);
         Calls.write(x, "j20h150r10-30;j20h150r10-30");
         Checks.same("13: the thirty-first", 1, x.impossibleOrder());
@@ -122,7 +122,7 @@ final class CountTests {
     }
 
     private static void thoseWhoLeftKeepTheirPlaces() {
-        ChoirRegister x = new ChoirRegister();
+        Register x = new Register();
         addSingers(x, 30);
         for (int singer = 0; singer < 30; singer++) {
             Checks.same("3: those who stay", 29 - singer, x.leave(singer));
@@ -135,7 +135,7 @@ final class CountTests {
     // ---- the calendar
 
     private static void noFeasts() {
-        ChoirRegister x = new ChoirRegister();
+        Register x = new Register();
         addSingers(x, 2);
         Checks.same("30: none", 0, x.feasts());
         Checks.same("43: none", -1, x.firstShortFeast());
@@ -144,7 +144,7 @@ final class CountTests {
     }
 
     private static void oneFeast() {
-        ChoirRegister x = new ChoirRegister();
+        Register x = new Register();
         Checks.same("7: the first number", 0, x.announce(3, 1));
         Checks.same("30: one", 1, x.feasts());
         for (int line = 0; line < 4; line++) {
@@ -159,7 +159,7 @@ final class CountTests {
     }
 
     private static void twentyFeasts() {
-        ChoirRegister x = new ChoirRegister();
+        Register x = new Register();
         for (int feast = 0; feast < 19; feast++) {
             x.announce(feast + 1, 1);
         }
@@ -179,7 +179,7 @@ final class CountTests {
     }
 
     private static void theTwentiethByLetter() {
-        ChoirRegister x = new ChoirRegister();
+        Register x = new Register();
         for (int feast = 0; feast < 19; feast++) {
             x.announce(feast + 1, 1);
         }
@@ -195,7 +195,7 @@ final class CountTests {
     // ---- the notes
 
     private static void sixtyNotes() {
-        ChoirRegister x = new ChoirRegister();
+        Register x = new Register();
         addSingers(x, 3);
         for (int note = 1; note <= 30; note++) {
             Checks.same("6: notes of singer 0", note, x.excuse(0, 2 * note, 2 * note));
@@ -216,7 +216,7 @@ final class CountTests {
     }
 
     private static void theSixtiethByLetter() {
-        ChoirRegister x = new ChoirRegister();
+        Register x = new Register();
         addSingers(x, 2);
         for (int note = 1; note <= 59; note++) {
             x.excuse(0, note, note);
@@ -230,7 +230,7 @@ final class CountTests {
     }
 
     private static void notesThatAreOverCount() {
-        ChoirRegister x = new ChoirRegister();
+        Register x = new Register();
         addSingers(x, 2);
         Checks.same("6: the first note", 1, x.excuse(0, 1, 1));
         x.passDays(5);
@@ -247,7 +247,7 @@ final class CountTests {
     // ---- the letter
 
     private static void theLetterIsFull() {
-        ChoirRegister x = new ChoirRegister();
+        Register x = new Register();
         Checks.same("11: empty", 0, x.clearLetter());
         for (int length = 1; length <= 80; length++) {
             Checks.same("10: length", length, x.type(length % 3 == 0 ? ';' : length % 3 == 1 ? 't' : '1'));
@@ -266,7 +266,7 @@ final class CountTests {
     // ---- the kept states
 
     private static void recordedStates() {
-        ChoirRegister x = new ChoirRegister();
+        Register x = new Register();
         int[] recorded = {0, 1, 2, 3, 4, 4, 4, 4};
         for (int day = 0; day < recorded.length; day++) {
             Checks.same("51: after " + day + " actions", recorded[day], x.recordedStates());
@@ -291,7 +291,7 @@ final class CountTests {
             x -> x.lend(0, 1, 3), x -> x.excuse(0, 8, 9), x -> x.announce(9, 2), x -> x.setLine(0, 0, 2, 10, 20),
             x -> x.passDays(3), x -> x.carryOut(), x -> x.restoreSnapshot()};
         for (int i = 0; i < actions.length; i++) {
-            ChoirRegister x = new ChoirRegister();
+            Register x = new Register();
             x.takeSnapshot();
             Calls.write(x, "t1");
             x.register(20, 150, 10, 30, 0);
@@ -312,7 +312,7 @@ final class CountTests {
     }
 
     private static void oneSnapshot() {
-        ChoirRegister x = new ChoirRegister();
+        Register x = new Register();
         Checks.refuses(x, NOT_NOW, "17: none", () -> x.restoreSnapshot());
         Checks.same("16: on day 0", 0, x.takeSnapshot());
         Checks.same("17: of an empty register", 0, x.restoreSnapshot());
@@ -333,7 +333,7 @@ final class CountTests {
     // ---- counts that run below nothing
 
     private static void favoursRunDown() {
-        ChoirRegister x = new ChoirRegister();
+        Register x = new Register();
         for (int choir = 0; choir < 5; choir++) {
             for (int favours = -1; favours >= -3; favours--) {
                 x.borrow(choir, 1, 150, 10, 20, 5);
@@ -347,7 +347,7 @@ final class CountTests {
     }
 
     private static void favoursRunUp() {
-        ChoirRegister x = new ChoirRegister();
+        Register x = new Register();
         addSingers(x, 2);
         x.lend(0, 3, 1);
         x.lend(1, 3, 1);
@@ -360,7 +360,7 @@ final class CountTests {
     }
 
     private static void theChoirWithoutFavourLendsAgain() {
-        ChoirRegister x = new ChoirRegister();
+        Register x = new Register();
         addSingers(x, 1);
         x.borrow(1, 1, 150, 10, 20, 5);
         x.borrow(1, 1, 150, 10, 20, 5);
@@ -375,7 +375,7 @@ final class CountTests {
     }
 
     private static void thePurseRunsBelowNothing() {
-        ChoirRegister x = new ChoirRegister();
+        Register x = new Register();
         x.announce(1, 2);
         x.announce(2, 1);
         x.announce(3, 1);
@@ -401,7 +401,7 @@ final class CountTests {
 
     private static void everyPlaceOfEveryLine() {
         for (int singers = 22; singers <= 26; singers++) {
-            ChoirRegister x = new ChoirRegister();
+            Register x = new Register();
             addSingers(x, singers);
             x.announce(1, 3);
             for (int line = 0; line < 4; line++) {
@@ -424,7 +424,7 @@ final class CountTests {
     // ---- calls
 
     private static void askingTwice() {
-        ChoirRegister x = new ChoirRegister();
+        Register x = new Register();
         addSingers(x, 3);
         x.announce(5, 1);
         x.setLine(0, 0, 2, 10, 20);

@@ -41,14 +41,14 @@ final class DayTests {
         onlyFeastsToComeAreShort();
     }
 
-    private static void to(ChoirRegister x, int day) {
+    private static void to(Register x, int day) {
         Calls.pass(x, day - x.day());
     }
 
     // ---- all days
 
     private static void theLastDayOfAll() {
-        ChoirRegister x = new ChoirRegister();
+        Register x = new Register();
         Checks.same("50: the first day", 0, x.day());
         x.register(20, 150, 10, 30, 0);
         to(x, 9900);
@@ -67,7 +67,7 @@ final class DayTests {
     }
 
     private static void whatReachesBeyondTheLastDay() {
-        ChoirRegister x = new ChoirRegister();
+        Register x = new Register();
         to(x, 9999);
         x.register(7, 150, 10, 30, 17);
         x.borrow(0, 1, 150, 10, 30, 90);
@@ -84,7 +84,7 @@ final class DayTests {
     // ---- ages
 
     private static void birthdays() {
-        ChoirRegister x = new ChoirRegister();
+        Register x = new Register();
         x.passDays(5);
         x.register(7, 150, 10, 30, 0);
         x.register(70, 150, 10, 30, 0);
@@ -102,14 +102,14 @@ final class DayTests {
     // ---- voices
 
     /** Registers a singer of 11 years on a day, whose voice breaks at 12; answers the day on which it begins. */
-    private static int breakingFrom(ChoirRegister x, int day) {
+    private static int breakingFrom(Register x, int day) {
         to(x, day);
         x.register(11, 150, 20, 40, 12);
         return day + 360;
     }
 
     private static void breakingIsTold(int registered) {
-        ChoirRegister x = new ChoirRegister();
+        Register x = new Register();
         int first = breakingFrom(x, registered);
         int[] day = {registered, first - 1, first, first + 45, first + 89, first + 90, first + 91};
         int[] lowest = {20, 20, 20, 20, 20, 8, 8};
@@ -123,7 +123,7 @@ final class DayTests {
     }
 
     private static void breakingHinders(int registered) {
-        ChoirRegister x = new ChoirRegister();
+        Register x = new Register();
         int first = breakingFrom(x, registered);
         int[] day = {first - 1, first, first + 45, first + 89, first + 90};
         int breaking = ChoirRegister.BREAKING;
@@ -146,7 +146,7 @@ final class DayTests {
     }
 
     private static void breakingSilencesLineups() {
-        ChoirRegister x = new ChoirRegister();
+        Register x = new Register();
         int first = breakingFrom(x, 3);
         int[] day = {first - 1, first, first + 45, first + 89, first + 90};
         int[] line = {0, -1, -1, -1, 1};
@@ -165,7 +165,7 @@ final class DayTests {
 
     private static void noBreakWithoutNeed() {
         for (int breakAge = 12; breakAge <= 17; breakAge++) {
-            ChoirRegister x = new ChoirRegister();
+            Register x = new Register();
             x.register(breakAge - 1, 150, 20, 40, breakAge);
             x.register(breakAge, 150, 20, 40, breakAge);
             x.register(breakAge + 1, 150, 20, 40, breakAge);
@@ -185,7 +185,7 @@ final class DayTests {
     }
 
     private static void nextToBreakIsLaterThanToday() {
-        ChoirRegister x = new ChoirRegister();
+        Register x = new Register();
         x.passDays(1);
         x.register(11, 150, 10, 30, 12);
         x.passDays(1);
@@ -205,7 +205,7 @@ final class DayTests {
     // ---- borrowed singers
 
     private static void borrowedFor(int days) {
-        ChoirRegister x = new ChoirRegister();
+        Register x = new Register();
         x.passDays(10);
         x.register(20, 150, 10, 30, 0);
         x.borrow(0, 1, 150, 10, 30, days);
@@ -227,7 +227,7 @@ final class DayTests {
     }
 
     private static void borrowedSingerSings() {
-        ChoirRegister x = new ChoirRegister();
+        Register x = new Register();
         x.passDays(10);
         x.borrow(0, 3, 150, 10, 30, 5);
         int[] day = {11, 13, 15, 16, 50};
@@ -249,7 +249,7 @@ final class DayTests {
     // ---- lent singers
 
     private static void lentFor(int days) {
-        ChoirRegister x = new ChoirRegister();
+        Register x = new Register();
         x.passDays(10);
         x.register(20, 150, 10, 30, 0);
         int last = 10 + days;
@@ -268,7 +268,7 @@ final class DayTests {
     }
 
     private static void lentSingerSings() {
-        ChoirRegister x = new ChoirRegister();
+        Register x = new Register();
         x.passDays(10);
         x.register(20, 150, 10, 30, 0);
         x.lend(0, 0, 5);
@@ -288,7 +288,7 @@ final class DayTests {
     }
 
     private static void lentOnceMoreBeforeItEnds() {
-        ChoirRegister x = new ChoirRegister();
+        Register x = new Register();
         x.register(20, 150, 10, 30, 0);
         x.announce(3, 1);
         x.announce(4, 1);
@@ -306,7 +306,7 @@ final class DayTests {
     // ---- notes of absence
 
     private static void excusedFor(int more) {
-        ChoirRegister x = new ChoirRegister();
+        Register x = new Register();
         x.passDays(10);
         x.register(20, 150, 10, 30, 0);
         x.excuse(0, 20, 20 + more);
@@ -321,7 +321,7 @@ final class DayTests {
     }
 
     private static void excusedSingerSings() {
-        ChoirRegister x = new ChoirRegister();
+        Register x = new Register();
         x.register(20, 150, 10, 30, 0);
         x.register(20, 150, 10, 30, 0);
         x.excuse(0, 20, 24);
@@ -341,7 +341,7 @@ final class DayTests {
     }
 
     private static void notesTouchButDoNotOverlap() {
-        ChoirRegister x = new ChoirRegister();
+        Register x = new Register();
         x.register(20, 150, 10, 30, 0);
         x.register(20, 150, 10, 30, 0);
         x.excuse(0, 20, 24);
@@ -361,7 +361,7 @@ final class DayTests {
     // ---- feasts
 
     private static void feastIsHeldOnItsDay() {
-        ChoirRegister x = new ChoirRegister();
+        Register x = new Register();
         x.register(20, 150, 10, 30, 0);
         x.announce(5, 1);
         Checks.same("32: announced", false, x.isHeld(0));
@@ -388,7 +388,7 @@ final class DayTests {
     }
 
     private static void feastsOfTheDaysThatPass() {
-        ChoirRegister x = new ChoirRegister();
+        Register x = new Register();
         x.passDays(10);
         int[] day = {11, 12, 15, 20, 21};
         for (int onDay : day) {
@@ -406,7 +406,7 @@ final class DayTests {
     }
 
     private static void feastOnTheLastDayOfAll() {
-        ChoirRegister x = new ChoirRegister();
+        Register x = new Register();
         x.register(20, 150, 10, 30, 0);
         x.announce(9999, 3);
         x.announce(1, 1);
@@ -422,7 +422,7 @@ final class DayTests {
     }
 
     private static void onlyFeastsToComeAreShort() {
-        ChoirRegister x = new ChoirRegister();
+        Register x = new Register();
         int[] day = {9, 3, 6};
         for (int i = 0; i < day.length; i++) {
             x.announce(day[i], 1);

@@ -7,12 +7,12 @@ final class Facts {
     private Facts() {
     }
 
-    static String of(ChoirRegister x) {
+    static String of(Register x) {
         return ofState(x) + " recorded " + x.recordedStates() + " letter " + x.letterError();
     }
 
     /** What belongs to the state alone: all but the letter, the recorded states and the snapshot. */
-    static String ofState(ChoirRegister x) {
+    static String ofState(Register x) {
         StringBuilder facts = new StringBuilder();
         facts.append("day ").append(x.day());
         facts.append(" coins ").append(x.purse()).append(' ').append(x.purseByAccounts());
@@ -30,7 +30,7 @@ final class Facts {
         return facts.toString();
     }
 
-    private static void addSinger(StringBuilder facts, ChoirRegister x, int singer) {
+    private static void addSinger(StringBuilder facts, Register x, int singer) {
         facts.append("\nsinger ").append(x.isInChoir(singer)).append(' ').append(x.ageOf(singer));
         facts.append(' ').append(x.lowestNoteOf(singer)).append(' ').append(x.highestNoteOf(singer));
         facts.append(' ').append(x.breakDayOf(singer)).append(' ').append(x.choirOf(singer));
@@ -43,7 +43,7 @@ final class Facts {
         }
     }
 
-    private static void addFeast(StringBuilder facts, ChoirRegister x, int feast) {
+    private static void addFeast(StringBuilder facts, Register x, int feast) {
         facts.append("\nfeast ").append(x.dayOf(feast)).append(' ').append(x.isHeld(feast));
         facts.append(' ').append(x.shortfall(feast)).append(' ').append(x.descantIn(feast));
         if (!x.isHeld(feast)) {

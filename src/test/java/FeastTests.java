@@ -32,20 +32,20 @@ final class FeastTests {
         unknownFeastsAreRefused();
     }
 
-    private static void addSingers(ChoirRegister x, int[]... ranges) {
+    private static void addSingers(Register x, int[]... ranges) {
         for (int[] range : ranges) {
             x.register(20, 150, range[0], range[1], 0);
         }
     }
 
-    private static void checkLines(String what, ChoirRegister x, int feast, int... want) {
+    private static void checkLines(String what, Register x, int feast, int... want) {
         for (int singer = 0; singer < want.length; singer++) {
             Checks.same(what + ": line of singer " + singer, want[singer], x.lineOf(feast, singer));
         }
     }
 
     private static void announceAnswersNumbers() {
-        ChoirRegister x = new ChoirRegister();
+        Register x = new Register();
         Checks.same("30: none", 0, x.feasts());
         Checks.same("7: first", 0, x.announce(9999, 1));
         Checks.same("7: second", 1, x.announce(1, 3));
@@ -67,7 +67,7 @@ final class FeastTests {
     }
 
     private static void announceRefuses() {
-        ChoirRegister x = new ChoirRegister();
+        Register x = new Register();
         x.announce(12, 1);
         x.passDays(10);
         Checks.refuses(x, OUT_OF_RANGE, "7: today", () -> x.announce(10, 1));
@@ -88,7 +88,7 @@ final class FeastTests {
     }
 
     private static void setLineAnswersAllPlaces() {
-        ChoirRegister x = new ChoirRegister();
+        Register x = new Register();
         x.announce(5, 1);
         x.announce(6, 1);
         Checks.same("8: one line", 6, x.setLine(0, 0, 6, 0, 48));
@@ -105,7 +105,7 @@ final class FeastTests {
     }
 
     private static void setLineRefuses() {
-        ChoirRegister x = new ChoirRegister();
+        Register x = new Register();
         x.announce(5, 1);
         x.announce(6, 1);
         x.setLine(0, 1, 2, 10, 20);
@@ -121,7 +121,7 @@ final class FeastTests {
         Checks.same("8: of one to come", 1, x.setLine(1, 0, 1, 10, 20));
     }
 
-    private static void refuseSetLine(ChoirRegister x, Class<? extends RuntimeException> want, int[][] rows) {
+    private static void refuseSetLine(Register x, Class<? extends RuntimeException> want, int[][] rows) {
         for (int[] n : rows) {
             Checks.refuses(x, want, "8: setLine " + java.util.Arrays.toString(n),
                 () -> x.setLine(n[0], n[1], n[2], n[3], n[4]));
@@ -129,7 +129,7 @@ final class FeastTests {
     }
 
     private static void passDaysCountsFeasts() {
-        ChoirRegister x = new ChoirRegister();
+        Register x = new Register();
         Checks.same("50: day 0", 0, x.day());
         x.announce(99, 1);
         x.announce(98, 1);
@@ -148,7 +148,7 @@ final class FeastTests {
     }
 
     private static void passDaysRefuses() {
-        ChoirRegister x = new ChoirRegister();
+        Register x = new Register();
         x.announce(9999, 1);
         for (int days : new int[] {0, 100, -1, Integer.MIN_VALUE, Integer.MAX_VALUE}) {
             Checks.refuses(x, OUT_OF_RANGE, "9: days " + days, () -> x.passDays(days));
@@ -162,7 +162,7 @@ final class FeastTests {
     }
 
     private static void whyNotTellsTheFirstReason() {
-        ChoirRegister x = new ChoirRegister();
+        Register x = new Register();
         x.register(11, 150, 20, 30, 12);
         x.announce(360, 1);
         x.announce(361, 1);
@@ -188,7 +188,7 @@ final class FeastTests {
     }
 
     private static void whyNotRefuses() {
-        ChoirRegister x = new ChoirRegister();
+        Register x = new Register();
         x.register(11, 150, 20, 30, 12);
         x.announce(3, 1);
         int[][] none = {{1, 0, 0}, {-1, 0, 0}, {0, 1, 0}, {0, -1, 0}, {0, 0, 4}, {0, 0, -1}};
@@ -198,14 +198,14 @@ final class FeastTests {
         refuseWhyNot(x, NOT_NOW, new int[][] {{0, 0, 0}});
     }
 
-    private static void refuseWhyNot(ChoirRegister x, Class<? extends RuntimeException> want, int[][] rows) {
+    private static void refuseWhyNot(Register x, Class<? extends RuntimeException> want, int[][] rows) {
         for (int[] n : rows) {
             Checks.refuses(x, want, "34: whyNot " + java.util.Arrays.toString(n), () -> x.whyNot(n[0], n[1], n[2]));
         }
     }
 
     private static void lineupTakesTheFirstGoodLine() {
-        ChoirRegister x = new ChoirRegister();
+        Register x = new Register();
         addSingers(x, new int[] {0, 48}, new int[] {0, 48}, new int[] {0, 48}, new int[] {40, 48});
         x.announce(3, 1);
         x.setLine(0, 1, 2, 10, 20);
@@ -218,7 +218,7 @@ final class FeastTests {
     }
 
     private static void lineupKeepsEveryPlaceFilled() {
-        ChoirRegister x = new ChoirRegister();
+        Register x = new Register();
         addSingers(x, new int[] {10, 40}, new int[] {10, 30}, new int[] {30, 48}, new int[] {20, 48});
         x.announce(3, 1);
         x.setLine(0, 0, 1, 31, 48);
@@ -232,7 +232,7 @@ final class FeastTests {
     }
 
     private static void lineupLeavesOutTheLastSingers() {
-        ChoirRegister x = new ChoirRegister();
+        Register x = new Register();
         for (int i = 0; i < 30; i++) {
             x.register(20, 150, 0, 48, 0);
         }
@@ -254,7 +254,7 @@ final class FeastTests {
     }
 
     private static void shortfallIsToldTwice() {
-        ChoirRegister x = new ChoirRegister();
+        Register x = new Register();
         x.announce(3, 1);
         Checks.same("37: no places", 0, x.shortfall(0));
         Checks.same("38: no places", 0, x.shortfallBySets(0));
@@ -272,7 +272,7 @@ final class FeastTests {
     }
 
     private static void neededLineIsTheFirst() {
-        ChoirRegister x = new ChoirRegister();
+        Register x = new Register();
         addSingers(x, new int[] {20, 30}, new int[] {0, 10});
         x.announce(3, 1);
         Checks.same("39: no places", -1, x.neededLine(0));
@@ -290,7 +290,7 @@ final class FeastTests {
     }
 
     private static void descantGoesRound() {
-        ChoirRegister x = new ChoirRegister();
+        Register x = new Register();
         x.register(20, 150, 10, 30, 0);
         x.register(20, 150, 10, 30, 0);
         x.register(21, 150, 10, 30, 0);
@@ -316,7 +316,7 @@ final class FeastTests {
     }
 
     private static void descantOfSeveral() {
-        ChoirRegister x = new ChoirRegister();
+        Register x = new Register();
         x.passDays(1);
         x.register(20, 150, 10, 30, 0);
         x.passDays(1);
@@ -337,7 +337,7 @@ final class FeastTests {
     }
 
     private static void pewsByHeight() {
-        ChoirRegister x = new ChoirRegister();
+        Register x = new Register();
         int[] height = {180, 150, 170, 150, 160, 140, 130};
         for (int i = 0; i < height.length; i++) {
             x.register(20, height[i], 10, 30, 0);
@@ -353,7 +353,7 @@ final class FeastTests {
         checkSeats(x, pew, seat);
     }
 
-    private static void checkSeats(ChoirRegister x, int[] pew, int[] seat) {
+    private static void checkSeats(Register x, int[] pew, int[] seat) {
         for (int singer = 0; singer < pew.length; singer++) {
             Checks.same("41: pew of " + singer, pew[singer], x.pewOf(0, singer));
             Checks.same("42: seat of " + singer, seat[singer], x.seatOf(0, singer));
@@ -361,7 +361,7 @@ final class FeastTests {
     }
 
     private static void heldFeastsStay() {
-        ChoirRegister x = new ChoirRegister();
+        Register x = new Register();
         addSingers(x, new int[] {10, 30}, new int[] {10, 30});
         x.announce(3, 2);
         x.setLine(0, 0, 3, 15, 20);
@@ -380,7 +380,7 @@ final class FeastTests {
     }
 
     private static void firstShortFeastIsTheEarliest() {
-        ChoirRegister x = new ChoirRegister();
+        Register x = new Register();
         Checks.same("43: no feasts", -1, x.firstShortFeast());
         addSingers(x, new int[] {10, 30});
         x.announce(9, 1);
@@ -401,7 +401,7 @@ final class FeastTests {
     }
 
     private static void coinsAreSettled() {
-        ChoirRegister x = new ChoirRegister();
+        Register x = new Register();
         Checks.same("45: at first", 50, x.purse());
         Checks.same("46: at first", 50, x.purseByAccounts());
         addSingers(x, new int[] {10, 30}, new int[] {40, 48});
@@ -438,7 +438,7 @@ final class FeastTests {
     }
 
     private static void borrowedSingersLeaveBeforeTheFeast() {
-        ChoirRegister x = new ChoirRegister();
+        Register x = new Register();
         x.borrow(0, 3, 150, 10, 30, 4);
         x.announce(4, 1);
         x.announce(5, 1);
@@ -454,7 +454,7 @@ final class FeastTests {
     }
 
     private static void twentyFeasts() {
-        ChoirRegister x = new ChoirRegister();
+        Register x = new Register();
         addSingers(x, new int[] {10, 30}, new int[] {10, 30}, new int[] {10, 30});
         for (int feast = 0; feast < 20; feast++) {
             x.announce(50 - feast, 1);
@@ -470,7 +470,7 @@ final class FeastTests {
     }
 
     private static void unknownFeastsAreRefused() {
-        ChoirRegister x = new ChoirRegister();
+        Register x = new Register();
         x.register(20, 150, 10, 30, 0);
         x.announce(5, 1);
         for (int n : new int[] {-1, 1, 19, 20, Integer.MIN_VALUE, Integer.MAX_VALUE}) {

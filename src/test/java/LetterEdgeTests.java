@@ -35,8 +35,8 @@ final class LetterEdgeTests {
         carryOutIsUndoneAtOnce();
     }
 
-    private static ChoirRegister with(String letter) {
-        ChoirRegister x = new ChoirRegister();
+    private static Register with(String letter) {
+        Register x = new Register();
         Calls.write(x, letter);
         return x;
     }
@@ -189,7 +189,7 @@ final class LetterEdgeTests {
 
     private static void everySignAtTheBeginning() {
         for (int sign = 0; sign < 65536; sign++) {
-            ChoirRegister x = new ChoirRegister();
+            Register x = new Register();
             x.type((char) sign);
             Checks.same("12: sign " + sign, "jflnoxt".indexOf(sign) >= 0 ? 1 : 0, x.letterError());
         }
@@ -257,14 +257,14 @@ final class LetterEdgeTests {
     }
 
     private static void fullLetter(int want, String tail) {
-        ChoirRegister x = with(full(tail));
+        Register x = with(full(tail));
         Checks.refuses(x, NOT_NOW, "10: one sign more than " + tail, () -> x.type('1'));
         Checks.same("12: first error of a full letter, " + tail, want, x.letterError());
         Checks.same("11: length of a full letter, " + tail, 80, x.clearLetter());
     }
 
     private static void oldSignsAreForgotten() {
-        ChoirRegister x = with("t15;t15");
+        Register x = with("t15;t15");
         x.clearLetter();
         Checks.same("12: nothing is left", 0, x.letterError());
         x.type('t');
@@ -286,7 +286,7 @@ final class LetterEdgeTests {
     // ---- the orders
 
     private static void breakAgeOfTheOrderBefore() {
-        ChoirRegister x = with("j11h150r10-20b12;j11h150r10-20;j11h150r10-20b13");
+        Register x = with("j11h150r10-20b12;j11h150r10-20;j11h150r10-20b13");
         x.carryOut();
         Checks.same("14: breaks at 12", 360, x.breakDayOf(0));
         Checks.same("14: never breaks", -1, x.breakDayOf(1));
@@ -300,7 +300,7 @@ final class LetterEdgeTests {
         Checks.same("13: the first of two", 1, with("t1;x0;x1;t1").impossibleOrder());
         Checks.same("13: none", -1, with(MANY + "t1").impossibleOrder());
         Checks.same("14: twenty-seven", 27, with(MANY + "t1").carryOut());
-        ChoirRegister x = with(MANY + "x0");
+        Register x = with(MANY + "x0");
         Checks.refuses(x, NOT_NOW, "14: the last one", () -> x.carryOut());
     }
 
@@ -340,14 +340,14 @@ final class LetterEdgeTests {
     }
 
     private static void heightsOfOrders() {
-        ChoirRegister x = with("j20h210r10-30;j30h90r20-30;f1*1;l0.0=2r20-30");
+        Register x = with("j20h210r10-30;j30h90r20-30;f1*1;l0.0=2r20-30");
         x.carryOut();
         Checks.same("14: the highest one sits behind", 1, x.seatOf(0, 0));
         Checks.same("14: the lowest one sits before", 0, x.seatOf(0, 1));
     }
 
     private static void theLastSingerIsLent() {
-        ChoirRegister x = new ChoirRegister();
+        Register x = new Register();
         for (int i = 0; i < 30; i++) {
             x.register(20, 150, 10, 30, 0);
         }
@@ -363,7 +363,7 @@ final class LetterEdgeTests {
     }
 
     private static void theLastFeastIsSet() {
-        ChoirRegister x = new ChoirRegister();
+        Register x = new Register();
         x.register(20, 150, 7, 41, 0);
         for (int feast = 0; feast < 20; feast++) {
             x.announce(feast + 1, 1);
@@ -377,7 +377,7 @@ final class LetterEdgeTests {
     }
 
     private static void oneOrder() {
-        ChoirRegister x = with("t1");
+        Register x = with("t1");
         Checks.same("13: none", -1, x.impossibleOrder());
         Checks.same("14: one", 1, x.carryOut());
         Checks.same("51: one action", 1, x.recordedStates());
@@ -392,7 +392,7 @@ final class LetterEdgeTests {
     }
 
     private static void lettersAtTheLastDay() {
-        ChoirRegister x = new ChoirRegister();
+        Register x = new Register();
         Calls.pass(x, 9997);
         Calls.write(x, "t1;f9999*1;t1;t1");
         Checks.same("13: after the last day", 3, x.impossibleOrder());
@@ -409,7 +409,7 @@ final class LetterEdgeTests {
     }
 
     private static void carryOutIsUndoneAtOnce() {
-        ChoirRegister x = new ChoirRegister();
+        Register x = new Register();
         for (int i = 0; i < 4; i++) {
             x.passDays(1);
         }

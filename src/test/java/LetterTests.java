@@ -26,7 +26,7 @@ final class LetterTests {
     }
 
     private static void typeAnswersTheLength() {
-        ChoirRegister x = new ChoirRegister();
+        Register x = new Register();
         char[] any = {'j', ';', ' ', (char) 0, (char) 127, (char) 255, (char) 256, (char) 65535};
         for (int i = 0; i < 80; i++) {
             Checks.same("10: length", i + 1, x.type(any[i % any.length]));
@@ -40,7 +40,7 @@ final class LetterTests {
     }
 
     private static void clearLetterEmpties() {
-        ChoirRegister x = new ChoirRegister();
+        Register x = new Register();
         Checks.same("11: empty", 0, x.clearLetter());
         Calls.write(x, "t5;");
         Checks.same("11: three signs", 3, x.clearLetter());
@@ -50,7 +50,7 @@ final class LetterTests {
     }
 
     private static void checkError(String letter, int want) {
-        ChoirRegister x = new ChoirRegister();
+        Register x = new Register();
         Calls.write(x, letter);
         Checks.same("12: first error of " + letter, want, x.letterError());
     }
@@ -162,7 +162,7 @@ final class LetterTests {
         }
     }
 
-    private static void checkImpossible(ChoirRegister x, String letter, int want) {
+    private static void checkImpossible(Register x, String letter, int want) {
         Calls.write(x, letter);
         String before = Facts.of(x);
         Checks.same("13: " + letter, want, x.impossibleOrder());
@@ -170,7 +170,7 @@ final class LetterTests {
     }
 
     private static void impossibleOrders() {
-        ChoirRegister x = new ChoirRegister();
+        Register x = new Register();
         checkImpossible(x, "j11h140r24-40b12", -1);
         checkImpossible(x, "j11h140r24-20b12", 0);
         checkImpossible(x, "x0", 0);
@@ -202,7 +202,7 @@ final class LetterTests {
     }
 
     private static void carryOutIsOneAction() {
-        ChoirRegister x = new ChoirRegister();
+        Register x = new Register();
         x.passDays(3);
         Calls.write(x, "j11h140r24-40b12;j40h170r8-30;f9*2;l0.1=2r10-20;t7");
         Checks.same("14: five orders", 5, x.carryOut());
@@ -220,7 +220,7 @@ final class LetterTests {
     }
 
     private static void carryOutRefuses() {
-        ChoirRegister x = new ChoirRegister();
+        Register x = new Register();
         x.register(20, 150, 10, 20, 0);
         for (String letter : new String[] {"x1", "j20h150r10-20;x0;x0", "t5;f5*1", "j20h150r10-20;x0;"}) {
             Calls.write(x, letter);
@@ -234,8 +234,8 @@ final class LetterTests {
     }
 
     private static void ordersOfEveryKind() {
-        ChoirRegister x = new ChoirRegister();
-        ChoirRegister y = new ChoirRegister();
+        Register x = new Register();
+        Register y = new Register();
         x.register(11, 140, 24, 40, 13);
         x.register(20, 170, 8, 30, 0);
         x.announce(30, 3);
@@ -250,7 +250,7 @@ final class LetterTests {
     }
 
     private static void lettersDoNotBelongToTheState() {
-        ChoirRegister x = new ChoirRegister();
+        Register x = new Register();
         x.takeSnapshot();
         x.passDays(1);
         Calls.write(x, "t1;t1;t1;t1;t1;t1;t1;t1;t1;t1;t1;t1;t1;t1;t1;t1;t1;t1;t1;t1;t1;t1;t1;t1;t1;t12");

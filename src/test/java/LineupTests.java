@@ -34,7 +34,7 @@ final class LineupTests {
         heldPewsStay();
     }
 
-    private static void addSingers(ChoirRegister x, int count) {
+    private static void addSingers(Register x, int count) {
         for (int i = 0; i < count; i++) {
             x.register(20, 150, 10, 30, 0);
         }
@@ -58,7 +58,7 @@ final class LineupTests {
     }
 
     private static int whyNot(int set) {
-        ChoirRegister x = new ChoirRegister();
+        Register x = new Register();
         x.register(11, 150, 20, 30, holds(set, ChoirRegister.BREAKING) ? 12 : 0);
         x.announce(400, 1);
         int lowest = holds(set, ChoirRegister.TOO_LOW) ? 19 : 20;
@@ -77,7 +77,7 @@ final class LineupTests {
     }
 
     private static void borrowedSingersReasons() {
-        ChoirRegister x = new ChoirRegister();
+        Register x = new Register();
         x.borrow(0, 1, 150, 20, 30, 5);
         x.excuse(0, 5, 6);
         x.announce(5, 1);
@@ -92,7 +92,7 @@ final class LineupTests {
         }
     }
 
-    private static void checkSpans(String what, ChoirRegister x, int[][] spans) {
+    private static void checkSpans(String what, Register x, int[][] spans) {
         for (int[] span : spans) {
             x.setLine(0, 0, 1, span[0], span[1]);
             Checks.same("34: " + what + " from " + span[0] + " to " + span[1], span[2], x.whyNot(0, 0, 0));
@@ -101,7 +101,7 @@ final class LineupTests {
     }
 
     private static void linesAtTheEndsOfARange() {
-        ChoirRegister x = new ChoirRegister();
+        Register x = new Register();
         x.register(20, 150, 20, 30, 0);
         x.announce(1, 1);
         int low = ChoirRegister.TOO_LOW;
@@ -112,12 +112,12 @@ final class LineupTests {
     }
 
     private static void linesAtTheEndsOfALoweredRange() {
-        ChoirRegister x = new ChoirRegister();
+        Register x = new Register();
         x.register(11, 150, 11, 12, 12);
         x.announce(450, 1);
         int high = ChoirRegister.TOO_HIGH;
         checkSpans("0 to 0", x, new int[][] {{0, 0, 0}, {0, 1, high}, {1, 1, high}});
-        ChoirRegister y = new ChoirRegister();
+        Register y = new Register();
         y.register(11, 150, 13, 48, 12);
         y.announce(450, 1);
         checkSpans("1 to 36", y, new int[][] {
@@ -125,11 +125,11 @@ final class LineupTests {
     }
 
     private static void linesOfOneNote() {
-        ChoirRegister x = new ChoirRegister();
+        Register x = new Register();
         x.register(20, 150, 0, 0, 0);
         x.announce(1, 1);
         checkSpans("0 to 0", x, new int[][] {{0, 0, 0}, {0, 1, ChoirRegister.TOO_HIGH}, {1, 1, ChoirRegister.TOO_HIGH}});
-        ChoirRegister y = new ChoirRegister();
+        Register y = new Register();
         y.register(20, 150, 48, 48, 0);
         y.announce(1, 1);
         checkSpans("48 to 48", y, new int[][] {
@@ -137,7 +137,7 @@ final class LineupTests {
     }
 
     private static void linesThatWereNotSet() {
-        ChoirRegister x = new ChoirRegister();
+        Register x = new Register();
         x.register(20, 150, 0, 0, 0);
         x.register(20, 150, 1, 48, 0);
         x.announce(1, 1);
@@ -155,7 +155,7 @@ final class LineupTests {
 
     private static void oneLineWithMoreAndMoreSingers() {
         for (int singers = 0; singers <= 8; singers++) {
-            ChoirRegister x = new ChoirRegister();
+            Register x = new Register();
             addSingers(x, singers);
             x.announce(1, 1);
             x.setLine(0, 1, 6, 10, 30);
@@ -167,7 +167,7 @@ final class LineupTests {
         }
     }
 
-    private static void checkOneLine(ChoirRegister x, int singers) {
+    private static void checkOneLine(Register x, int singers) {
         String what = " of " + singers + (x.isHeld(0) ? ", held" : "");
         Checks.same("36: singers" + what, Math.min(singers, 6), x.singersIn(0, 1));
         Checks.same("36: singers of another line" + what, 0, x.singersIn(0, 0));
@@ -186,7 +186,7 @@ final class LineupTests {
     }
 
     private static void threeSingersWithMoreAndMorePlaces() {
-        ChoirRegister x = new ChoirRegister();
+        Register x = new Register();
         addSingers(x, 3);
         x.announce(1, 1);
         for (int places = 0; places <= 6; places++) {
@@ -200,7 +200,7 @@ final class LineupTests {
     }
 
     private static void theEmptySetOfLines() {
-        ChoirRegister x = new ChoirRegister();
+        Register x = new Register();
         addSingers(x, 4);
         x.announce(1, 1);
         for (int line = 0; line < 4; line++) {
@@ -216,7 +216,7 @@ final class LineupTests {
     private static void setsOfLines() {
         int[] note = {0, 12, 24, 36};
         for (int set = 1; set < 16; set++) {
-            ChoirRegister x = new ChoirRegister();
+            Register x = new Register();
             x.announce(1, 1);
             int lines = 0;
             for (int line = 0; line < 4; line++) {
@@ -233,7 +233,7 @@ final class LineupTests {
     }
 
     private static void neededLineHasPlaces() {
-        ChoirRegister x = new ChoirRegister();
+        Register x = new Register();
         x.announce(1, 1);
         x.setLine(0, 0, 0, 10, 30);
         x.setLine(0, 1, 0, 10, 30);
@@ -249,7 +249,7 @@ final class LineupTests {
     }
 
     private static void neededLineIsTheFirstOfSeveral() {
-        ChoirRegister x = new ChoirRegister();
+        Register x = new Register();
         x.register(20, 150, 10, 20, 0);
         x.register(20, 150, 30, 40, 0);
         x.announce(1, 1);
@@ -267,7 +267,7 @@ final class LineupTests {
     }
 
     private static void noLineForOneWhoIsNotNeeded() {
-        ChoirRegister x = new ChoirRegister();
+        Register x = new Register();
         x.register(20, 150, 10, 30, 0);
         x.register(20, 150, 10, 20, 0);
         x.announce(1, 1);
@@ -283,8 +283,8 @@ final class LineupTests {
     }
 
     /** Lines 0 to 2 have one place each, on notes of their own. */
-    private static ChoirRegister threeLines(int[]... ranges) {
-        ChoirRegister x = new ChoirRegister();
+    private static Register threeLines(int[]... ranges) {
+        Register x = new Register();
         x.announce(1, 1);
         for (int line = 0; line < 3; line++) {
             x.setLine(0, line, 1, 10 + 10 * line, 10 + 10 * line);
@@ -296,7 +296,7 @@ final class LineupTests {
     }
 
     private static void roomIsMadeAfterOthersAreTold() {
-        ChoirRegister x = threeLines(new int[] {30, 30}, new int[] {10, 20}, new int[] {10, 10});
+        Register x = threeLines(new int[] {30, 30}, new int[] {10, 20}, new int[] {10, 10});
         Checks.same("35: the one of line 2 comes first", 2, x.lineOf(0, 0));
         Checks.same("35: then one makes room", 1, x.lineOf(0, 1));
         Checks.same("35: for the last one", 0, x.lineOf(0, 2));
@@ -304,7 +304,7 @@ final class LineupTests {
     }
 
     private static void roomIsMadeBesideOthersWhoAreTooMany() {
-        ChoirRegister x = threeLines(new int[] {30, 30}, new int[] {10, 20}, new int[] {10, 10}, new int[] {30, 30});
+        Register x = threeLines(new int[] {30, 30}, new int[] {10, 20}, new int[] {10, 10}, new int[] {30, 30});
         int[] want = {2, 1, 0, -1};
         for (int singer = 0; singer < want.length; singer++) {
             Checks.same("35: one too many for line 2, singer " + singer, want[singer], x.lineOf(0, singer));
@@ -313,7 +313,7 @@ final class LineupTests {
     }
 
     private static void linesWithPlacesAreTakenInTurn() {
-        ChoirRegister x = new ChoirRegister();
+        Register x = new Register();
         addSingers(x, 6);
         x.announce(1, 1);
         int[] places = {1, 0, 2, 1};
@@ -332,7 +332,7 @@ final class LineupTests {
     // ---- the descant
 
     private static void descantOnlyOfLineZero() {
-        ChoirRegister x = new ChoirRegister();
+        Register x = new Register();
         addSingers(x, 2);
         x.announce(1, 1);
         x.setLine(0, 1, 2, 10, 30);
@@ -348,7 +348,7 @@ final class LineupTests {
     }
 
     private static void descantsBeforeAgeBeforeNumber() {
-        ChoirRegister x = new ChoirRegister();
+        Register x = new Register();
         x.register(30, 150, 10, 30, 0);
         x.register(40, 150, 10, 30, 0);
         x.register(40, 150, 10, 30, 0);
@@ -369,7 +369,7 @@ final class LineupTests {
     }
 
     private static void ageIsToldByDays() {
-        ChoirRegister x = new ChoirRegister();
+        Register x = new Register();
         x.register(20, 150, 10, 30, 0);
         Calls.pass(x, 359);
         x.register(21, 150, 10, 30, 0);
@@ -377,7 +377,7 @@ final class LineupTests {
         x.announce(360, 1);
         x.setLine(0, 0, 2, 10, 30);
         Checks.same("40: older by all but a day of a year", 1, x.descantIn(0));
-        ChoirRegister y = new ChoirRegister();
+        Register y = new Register();
         y.register(20, 150, 10, 30, 0);
         Calls.pass(y, 360);
         y.register(21, 150, 10, 30, 0);
@@ -391,7 +391,7 @@ final class LineupTests {
     }
 
     private static void descantsOfFeastsBetween() {
-        ChoirRegister x = new ChoirRegister();
+        Register x = new Register();
         addSingers(x, 2);
         x.announce(9, 1);
         x.setLine(0, 0, 2, 10, 30);
@@ -412,7 +412,7 @@ final class LineupTests {
 
     // ---- pews
 
-    private static void checkSeats(String what, ChoirRegister x, int... want) {
+    private static void checkSeats(String what, Register x, int... want) {
         for (int singer = 0; singer < want.length; singer++) {
             int place = want[singer];
             Checks.same("41: " + what + ", pew of " + singer, place < 0 ? -1 : place / 2, x.pewOf(0, singer));
@@ -420,8 +420,8 @@ final class LineupTests {
         }
     }
 
-    private static ChoirRegister choirOfHeights(int... heights) {
-        ChoirRegister x = new ChoirRegister();
+    private static Register choirOfHeights(int... heights) {
+        Register x = new Register();
         for (int height : heights) {
             x.register(20, height, 10, 30, 0);
         }
@@ -436,14 +436,14 @@ final class LineupTests {
         checkSeats("a borrowed one between", borrowedBetween(), 0, 2, 1);
     }
 
-    private static ChoirRegister borrowedBetween() {
-        ChoirRegister x = choirOfHeights(140, 160);
+    private static Register borrowedBetween() {
+        Register x = choirOfHeights(140, 160);
         x.borrow(0, 1, 150, 10, 30, 5);
         return x;
     }
 
     private static void pewsOfEachLine() {
-        ChoirRegister x = choirOfHeights(180, 170, 160, 150, 140);
+        Register x = choirOfHeights(180, 170, 160, 150, 140);
         x.setLine(0, 0, 2, 10, 30);
         x.setLine(0, 2, 2, 10, 30);
         checkSeats("two lines", x, 1, 0, 1, 0, -1);
@@ -457,7 +457,7 @@ final class LineupTests {
     }
 
     private static void heldPewsStay() {
-        ChoirRegister x = choirOfHeights(180, 170, 160);
+        Register x = choirOfHeights(180, 170, 160);
         x.passDays(1);
         x.leave(2);
         x.register(20, 90, 10, 30, 0);

@@ -31,7 +31,7 @@ final class OrderTests {
         setsAndNeededLineOfAHeldFeast();
     }
 
-    private static void fill(ChoirRegister x) {
+    private static void fill(Register x) {
         while (x.singers() < 30) {
             x.register(20, 150, 10, 30, 0);
         }
@@ -101,7 +101,7 @@ final class OrderTests {
     }
 
     /** Singer 0 is there, 1 has left, 2 is borrowed, 3 is away up to day 5, 4 left while away. */
-    private static void fiveSingers(ChoirRegister x) {
+    private static void fiveSingers(Register x) {
         x.register(20, 150, 10, 30, 0);
         x.register(20, 150, 10, 30, 0);
         x.borrow(0, 1, 150, 10, 20, 90);

@@ -9,7 +9,7 @@ final class RangeTests {
     private static final Class<IllegalArgumentException> OUT_OF_RANGE = IllegalArgumentException.class;
 
     private interface CallWith {
-        long on(ChoirRegister x, int value);
+        long on(Register x, int value);
     }
 
     private RangeTests() {
@@ -56,7 +56,7 @@ final class RangeTests {
     }
 
     /** Three singers, and three feasts that two of them sing in line 0. */
-    private static void threeOfEach(ChoirRegister x) {
+    private static void threeOfEach(Register x) {
         for (int i = 0; i < 3; i++) {
             x.register(20, 150, 10, 30, 0);
             x.announce(20 + 10 * i, 1);

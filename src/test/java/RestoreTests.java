@@ -21,14 +21,14 @@ final class RestoreTests {
         recordedStatesAreNoPartOfTheState();
     }
 
-    private static void carryOut(ChoirRegister x, String letter) {
+    private static void carryOut(Register x, String letter) {
         Calls.write(x, letter);
         x.carryOut();
     }
 
     /** A state is kept, undone and written over by another one of the same size; then the kept one is brought back. */
-    private static ChoirRegister broughtBack(Twins.Script kept, Twins.Script over) {
-        ChoirRegister x = new ChoirRegister();
+    private static Register broughtBack(Twins.Script kept, Twins.Script over) {
+        Register x = new Register();
         kept.on(x);
         x.takeSnapshot();
         while (x.recordedStates() > 0) {
@@ -42,7 +42,7 @@ final class RestoreTests {
     // ---- each part of the state
 
     private static void singersComeBack() {
-        ChoirRegister x = broughtBack(
+        Register x = broughtBack(
             y -> carryOut(y, "j11h200r14-40b12;j40h100r20-30;o0>3+5"),
             y -> carryOut(y, "j12h100r0-48;j50h200r0-48b17;t9;x1"));
         Checks.same("17: day", 0, x.day());
@@ -57,14 +57,14 @@ final class RestoreTests {
         carryOut(x, "f9*1;l0.0=2r20-30");
         Checks.same("17: height of the higher one", 1, x.seatOf(0, 0));
         Checks.same("17: height of the lower one", 0, x.seatOf(0, 1));
-        ChoirRegister z = broughtBack(y -> y.borrow(3, 7, 150, 10, 30, 50), y -> y.borrow(2, 1, 150, 10, 30, 4));
+        Register z = broughtBack(y -> y.borrow(3, 7, 150, 10, 30, 50), y -> y.borrow(2, 1, 150, 10, 30, 4));
         Checks.same("17: choir", 3, z.choirOf(0));
         carryOut(z, "f50*1;l0.0=1r20-30;t50");
         Checks.same("17: fee, and the days of borrowing", 7, z.fees());
     }
 
     private static void feastsComeBack() {
-        ChoirRegister x = broughtBack(
+        Register x = broughtBack(
             y -> carryOut(y, "j20h150r10-30;f9*3;l0.0=1r10-30;l0.1=2r9-30;l0.2=3r10-31"),
             y -> carryOut(y, "j20h150r10-30;f8*1;l0.0=6r0-0;l0.1=6r48-48;l0.2=6r0-0"));
         Checks.same("17: day of the feast", 9, x.dayOf(0));
@@ -80,7 +80,7 @@ final class RestoreTests {
     }
 
     private static void heldFeastsComeBack() {
-        ChoirRegister x = broughtBack(
+        Register x = broughtBack(
             y -> carryOut(y, "j20h150r10-30;j20h160r0-30;f1*1;l0.0=1r5-6;l0.1=1r10-30;t1"),
             y -> carryOut(y, "j20h150r10-30;j20h160r0-30;f1*1;l0.0=1r10-30;t1;t1"));
         Checks.same("17: held", true, x.isHeld(0));
@@ -95,7 +95,7 @@ final class RestoreTests {
     }
 
     private static void notesComeBack() {
-        ChoirRegister x = broughtBack(
+        Register x = broughtBack(
             y -> carryOut(y, "j20h150r10-30;j20h150r10-30;n0:5-9;n1:20-29"),
             y -> carryOut(y, "j20h150r10-30;j20h150r10-30;n1:40-41;n0:60-61;n0:70-70"));
         int[] day = {4, 5, 9, 10, 19, 20, 29, 30, 40, 60, 70};
@@ -107,7 +107,7 @@ final class RestoreTests {
     }
 
     private static void coinsAndFavoursComeBack() {
-        ChoirRegister x = broughtBack(y -> {
+        Register x = broughtBack(y -> {
             y.borrow(4, 7, 150, 10, 30, 50);
             carryOut(y, "j20h150r0-9;f1*3;l0.0=2r10-30;t1;o1>2+3");
         }, y -> {
@@ -134,7 +134,7 @@ final class RestoreTests {
     // ---- what was undone leaves nothing behind
 
     private static void newSingersBeginWithNothing() {
-        ChoirRegister x = new ChoirRegister();
+        Register x = new Register();
         carryOut(x, "j11h150r10-30b12;f1*1;l0.0=1r10-30;t1;n0:2-9;o0>1+9");
         Checks.same("28: sang", 1, x.feastsOf(0));
         x.undo();
@@ -156,7 +156,7 @@ final class RestoreTests {
     }
 
     private static void newFeastsBeginWithNothing() {
-        ChoirRegister x = new ChoirRegister();
+        Register x = new Register();
         x.register(20, 150, 10, 30, 0);
         x.register(20, 150, 0, 0, 0);
         carryOut(x, "f1*3;l0.0=6r10-30;l0.1=6r10-30;l0.2=6r10-30;l0.3=6r10-30;t1");
@@ -179,22 +179,22 @@ final class RestoreTests {
 
     // ---- the whole state
 
-    private static void firstOfTwo(ChoirRegister x) {
+    private static void firstOfTwo(Register x) {
         x.borrow(3, 7, 150, 10, 30, 60);
         carryOut(x, "j11h140r24-40b12;j40h170r8-30;f9*2;l0.0=2r10-20;l0.1=2r26-40;t7");
         carryOut(x, "f40*3;l1.0=3r10-20;l1.2=1r0-8;n1:12-40;o2>1+30;t2");
     }
 
-    private static void secondOfTwo(ChoirRegister x) {
+    private static void secondOfTwo(Register x) {
         x.borrow(1, 2, 170, 0, 20, 20);
         carryOut(x, "j16h180r14-30b17;j30h130r10-40;f5*1;l0.0=3r10-20;l0.3=1r0-48;t9");
         carryOut(x, "f30*1;l1.1=4r12-19;l1.3=2r10-30;n2:20-30;x1;t3");
     }
 
     private static void allThatIsAskedComesBack() {
-        ChoirRegister plain = Twins.made(RestoreTests::firstOfTwo);
-        ChoirRegister over = Twins.made(RestoreTests::secondOfTwo);
-        ChoirRegister x = broughtBack(RestoreTests::firstOfTwo, RestoreTests::secondOfTwo);
+        Register plain = Twins.made(RestoreTests::firstOfTwo);
+        Register over = Twins.made(RestoreTests::secondOfTwo);
+        Register x = broughtBack(RestoreTests::firstOfTwo, RestoreTests::secondOfTwo);
         Checks.that("17: all that is asked", Facts.ofState(plain).equals(Facts.ofState(x)));
         x.undo();
         Checks.that("15: all that is asked", Facts.ofState(over).equals(Facts.ofState(x)));
@@ -208,7 +208,7 @@ final class RestoreTests {
     }
 
     private static void undoReachesFarApart() {
-        ChoirRegister x = new ChoirRegister();
+        Register x = new Register();
         String[] before = new String[12];
         for (int i = 0; i < before.length; i++) {
             before[i] = Facts.ofState(x);
@@ -233,7 +233,7 @@ final class RestoreTests {
     // ---- what is no part of the state
 
     private static void snapshotIsNoPartOfTheState() {
-        ChoirRegister x = new ChoirRegister();
+        Register x = new Register();
         x.passDays(1);
         x.takeSnapshot();
         x.passDays(1);
@@ -248,7 +248,7 @@ final class RestoreTests {
     }
 
     private static void letterIsNoPartOfTheState() {
-        ChoirRegister x = new ChoirRegister();
+        Register x = new Register();
         Calls.write(x, "t1");
         x.takeSnapshot();
         x.passDays(5);
@@ -263,7 +263,7 @@ final class RestoreTests {
     }
 
     private static void recordedStatesAreNoPartOfTheState() {
-        ChoirRegister x = new ChoirRegister();
+        Register x = new Register();
         x.takeSnapshot();
         x.passDays(1);
         x.passDays(1);

@@ -31,7 +31,7 @@ final class SingerTests {
     }
 
     private static void registerAnswersNumbers() {
-        ChoirRegister x = new ChoirRegister();
+        Register x = new Register();
         Checks.same("2: first", 0, x.register(7, 90, 0, 0, 0));
         Checks.same("2: second", 1, x.register(70, 210, 48, 48, 12));
         Checks.same("2: third", 2, x.register(11, 150, 0, 48, 17));
@@ -48,7 +48,7 @@ final class SingerTests {
     }
 
     private static void registerRefuses() {
-        ChoirRegister x = new ChoirRegister();
+        Register x = new Register();
         int[][] wrong = {
             {6, 150, 10, 20, 0}, {71, 150, 10, 20, 0}, {10, 89, 10, 20, 0}, {10, 211, 10, 20, 0},
             {10, 150, -1, 20, 0}, {10, 150, 49, 49, 0}, {10, 150, 20, 19, 0}, {10, 150, 10, 49, 0},
@@ -66,7 +66,7 @@ final class SingerTests {
         refuseRegister(x, NOT_NOW, new int[][] {{10, 150, 10, 20, 0}});
     }
 
-    private static void refuseRegister(ChoirRegister x, Class<? extends RuntimeException> want, int[][] rows) {
+    private static void refuseRegister(Register x, Class<? extends RuntimeException> want, int[][] rows) {
         for (int[] n : rows) {
             Checks.refuses(x, want, "2: register " + java.util.Arrays.toString(n),
                 () -> x.register(n[0], n[1], n[2], n[3], n[4]));
@@ -74,7 +74,7 @@ final class SingerTests {
     }
 
     private static void leaveCountsThoseWhoStay() {
-        ChoirRegister x = new ChoirRegister();
+        Register x = new Register();
         x.register(20, 150, 0, 48, 0);
         x.register(20, 150, 0, 48, 0);
         x.borrow(1, 2, 150, 0, 48, 3);
@@ -95,7 +95,7 @@ final class SingerTests {
     }
 
     private static void leaveRefuses() {
-        ChoirRegister x = new ChoirRegister();
+        Register x = new Register();
         Checks.refuses(x, NO_SUCH, "3: leave of none", () -> x.leave(0));
         x.register(20, 150, 0, 48, 0);
         x.borrow(1, 2, 150, 0, 48, 3);
@@ -109,7 +109,7 @@ final class SingerTests {
     }
 
     private static void borrowAnswersNumbers() {
-        ChoirRegister x = new ChoirRegister();
+        Register x = new Register();
         Checks.same("4: first", 0, x.borrow(4, 9, 90, 0, 0, 1));
         Checks.same("4: second", 1, x.borrow(0, 0, 210, 48, 48, 90));
         Checks.same("4: third", 2, x.borrow(4, 9, 210, 30, 48, 90));
@@ -127,7 +127,7 @@ final class SingerTests {
     }
 
     private static void borrowedSingersLeaveInTime() {
-        ChoirRegister x = new ChoirRegister();
+        Register x = new Register();
         x.passDays(10);
         x.borrow(3, 1, 150, 0, 48, 5);
         x.announce(15, 1);
@@ -142,7 +142,7 @@ final class SingerTests {
     }
 
     private static void borrowRefuses() {
-        ChoirRegister x = new ChoirRegister();
+        Register x = new Register();
         int[][] wrong = {
             {0, -1, 150, 10, 20, 5}, {0, 10, 150, 10, 20, 5}, {0, 1, 89, 10, 20, 5}, {0, 1, 211, 10, 20, 5},
             {0, 1, 150, -1, 20, 5}, {0, 1, 150, 21, 20, 5}, {0, 1, 150, 10, 49, 5}, {0, 1, 150, 10, 20, 0},
@@ -167,7 +167,7 @@ final class SingerTests {
         refuseBorrow(x, NO_SUCH, new int[][] {{5, 1, 150, 10, 20, 5}});
     }
 
-    private static void refuseBorrow(ChoirRegister x, Class<? extends RuntimeException> want, int[][] rows) {
+    private static void refuseBorrow(Register x, Class<? extends RuntimeException> want, int[][] rows) {
         for (int[] n : rows) {
             Checks.refuses(x, want, "4: borrow " + java.util.Arrays.toString(n),
                 () -> x.borrow(n[0], n[1], n[2], n[3], n[4], n[5]));
@@ -175,7 +175,7 @@ final class SingerTests {
     }
 
     private static void lendPaysAtOnce() {
-        ChoirRegister x = new ChoirRegister();
+        Register x = new Register();
         x.register(20, 150, 0, 48, 0);
         x.passDays(7);
         Checks.same("5: away up to", 97, x.lend(0, 4, 90));
@@ -195,7 +195,7 @@ final class SingerTests {
     }
 
     private static void lendRefuses() {
-        ChoirRegister x = new ChoirRegister();
+        Register x = new Register();
         x.register(20, 150, 0, 48, 0);
         x.register(20, 150, 0, 48, 0);
         x.borrow(0, 1, 150, 0, 48, 90);
@@ -219,7 +219,7 @@ final class SingerTests {
     }
 
     private static void excuseCountsNotes() {
-        ChoirRegister x = new ChoirRegister();
+        Register x = new Register();
         x.register(20, 150, 0, 48, 0);
         x.register(20, 150, 0, 48, 0);
         Checks.same("6: first note", 1, x.excuse(0, 1, 61));
@@ -236,7 +236,7 @@ final class SingerTests {
     }
 
     private static void excuseRefuses() {
-        ChoirRegister x = new ChoirRegister();
+        Register x = new Register();
         x.register(20, 150, 0, 48, 0);
         x.register(20, 150, 0, 48, 0);
         x.passDays(10);
@@ -268,7 +268,7 @@ final class SingerTests {
     }
 
     private static void agesGrowByTheDays() {
-        ChoirRegister x = new ChoirRegister();
+        Register x = new Register();
         x.register(10, 150, 0, 48, 0);
         Calls.pass(x, 100);
         x.register(10, 150, 0, 48, 0);
@@ -287,7 +287,7 @@ final class SingerTests {
     }
 
     private static void voicesBreak() {
-        ChoirRegister x = new ChoirRegister();
+        Register x = new Register();
         x.register(11, 150, 20, 40, 12);
         x.register(11, 150, 5, 11, 12);
         x.register(12, 150, 20, 40, 12);
@@ -320,7 +320,7 @@ final class SingerTests {
     }
 
     private static void breakDays() {
-        ChoirRegister x = new ChoirRegister();
+        Register x = new Register();
         x.passDays(5);
         x.register(7, 150, 0, 48, 17);
         x.register(16, 150, 0, 48, 17);
@@ -339,7 +339,7 @@ final class SingerTests {
     }
 
     private static void nextToBreakIsTheEarliest() {
-        ChoirRegister x = new ChoirRegister();
+        Register x = new Register();
         Checks.same("24: none", -1, x.nextToBreak());
         x.register(30, 150, 0, 48, 17);
         Checks.same("24: none whose voice breaks", -1, x.nextToBreak());
@@ -360,7 +360,7 @@ final class SingerTests {
     }
 
     private static void choirs() {
-        ChoirRegister x = new ChoirRegister();
+        Register x = new Register();
         x.register(20, 150, 0, 48, 0);
         x.borrow(0, 1, 150, 0, 48, 1);
         x.borrow(4, 1, 150, 0, 48, 1);
@@ -373,7 +373,7 @@ final class SingerTests {
     }
 
     private static void awayUntilTheLastDay() {
-        ChoirRegister x = new ChoirRegister();
+        Register x = new Register();
         x.register(20, 150, 0, 48, 0);
         Checks.same("26: never lent", -1, x.awayUntil(0));
         x.lend(0, 3, 4);
@@ -389,7 +389,7 @@ final class SingerTests {
     }
 
     private static void excusedDays() {
-        ChoirRegister x = new ChoirRegister();
+        Register x = new Register();
         x.register(20, 150, 0, 48, 0);
         x.register(20, 150, 0, 48, 0);
         x.excuse(0, 5, 7);
@@ -411,7 +411,7 @@ final class SingerTests {
     }
 
     private static void feastsAndDescantsAreCounted() {
-        ChoirRegister x = new ChoirRegister();
+        Register x = new Register();
         x.register(20, 150, 10, 30, 0);
         x.register(21, 150, 10, 30, 0);
         x.register(22, 150, 0, 5, 0);
@@ -435,7 +435,7 @@ final class SingerTests {
     }
 
     private static void unknownSingersAreRefused() {
-        ChoirRegister x = new ChoirRegister();
+        Register x = new Register();
         x.register(20, 150, 10, 30, 0);
         for (int singer : new int[] {-1, 1, 29, 30, Integer.MIN_VALUE, Integer.MAX_VALUE}) {
             Checks.refuses(x, NO_SUCH, "19: isInChoir", () -> x.isInChoir(singer) ? 1 : 0);

@@ -19,7 +19,7 @@ final class StateTests {
     }
 
     private static void aNewRegisterIsEmpty() {
-        ChoirRegister x = new ChoirRegister();
+        Register x = new Register();
         Checks.same("1: singers", 0, x.singers());
         Checks.same("1: feasts", 0, x.feasts());
         Checks.same("1: day", 0, x.day());
@@ -40,8 +40,8 @@ final class StateTests {
     }
 
     private static void registersAreApart() {
-        ChoirRegister x = new ChoirRegister();
-        ChoirRegister y = new ChoirRegister();
+        Register x = new Register();
+        Register y = new Register();
         x.register(20, 150, 10, 20, 0);
         x.type('t');
         x.takeSnapshot();
@@ -53,7 +53,7 @@ final class StateTests {
     }
 
     private static void undoGoesBackFourStates() {
-        ChoirRegister x = new ChoirRegister();
+        Register x = new Register();
         String[] facts = new String[7];
         for (int i = 0; i < 7; i++) {
             facts[i] = Facts.ofState(x);
@@ -74,7 +74,7 @@ final class StateTests {
     }
 
     private static void undoRefuses() {
-        ChoirRegister x = new ChoirRegister();
+        Register x = new Register();
         Checks.refuses(x, NOT_NOW, "15: no state", () -> x.undo());
         x.passDays(5);
         x.undo();
@@ -82,7 +82,7 @@ final class StateTests {
     }
 
     private static void everyActionIsRecorded() {
-        ChoirRegister x = new ChoirRegister();
+        Register x = new Register();
         Calls.write(x, "t1");
         x.takeSnapshot();
         Checks.Call[] actions = {
@@ -101,7 +101,7 @@ final class StateTests {
     }
 
     private static void questionsAreNotRecorded() {
-        ChoirRegister x = new ChoirRegister();
+        Register x = new Register();
         x.register(20, 150, 10, 20, 0);
         x.type('t');
         x.letterError();
@@ -113,7 +113,7 @@ final class StateTests {
     }
 
     private static void snapshotsAreKept() {
-        ChoirRegister x = new ChoirRegister();
+        Register x = new Register();
         x.register(20, 150, 10, 30, 0);
         x.announce(5, 2);
         x.setLine(0, 0, 2, 15, 20);
@@ -144,7 +144,7 @@ final class StateTests {
     }
 
     private static void restoreRefuses() {
-        ChoirRegister x = new ChoirRegister();
+        Register x = new Register();
         x.passDays(2);
         Checks.refuses(x, NOT_NOW, "17: no snapshot", () -> x.restoreSnapshot());
         x.takeSnapshot();
@@ -153,7 +153,7 @@ final class StateTests {
     }
 
     private static void undoBringsNothingOldBack() {
-        ChoirRegister x = new ChoirRegister();
+        Register x = new Register();
         x.register(11, 150, 10, 30, 12);
         x.lend(0, 1, 50);
         x.undo();
@@ -195,7 +195,7 @@ final class StateTests {
     }
 
     private static void favours() {
-        ChoirRegister x = new ChoirRegister();
+        Register x = new Register();
         x.register(20, 150, 10, 30, 0);
         x.register(20, 150, 10, 30, 0);
         x.lend(0, 2, 5);

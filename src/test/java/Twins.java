@@ -4,11 +4,11 @@
  */
 final class Twins {
     interface Script {
-        void on(ChoirRegister x);
+        void on(Register x);
     }
 
     interface Call {
-        long on(ChoirRegister x);
+        long on(Register x);
     }
 
     static final Script EMPTY = x -> { };
@@ -26,19 +26,13 @@ final class Twins {
     }
 
     static void refuseBare(Class<? extends RuntimeException> want, String what, Script script, Call call) {
-        ChoirRegister asked = made(script);
-        Class<?> thrown = null;
-        try {
-            call.on(asked);
-        } catch (RuntimeException e) {
-            thrown = e.getClass();
-        }
-        Checks.that(what + " threw " + thrown + ", due is " + want, thrown == want);
+        Register asked = made(script);
+        Checks.throwsJust(want, what, () -> call.on(asked));
         Checks.that(what + " left a trace, though it is refused", story(made(script)).equals(story(asked)));
     }
 
     static void take(String what, long want, Script script, Call call) {
-        ChoirRegister x = made(script);
+        Register x = made(script);
         try {
             Checks.same(what, want, call.on(x));
         } catch (RuntimeException e) {
@@ -46,14 +40,14 @@ final class Twins {
         }
     }
 
-    static ChoirRegister made(Script script) {
-        ChoirRegister x = new ChoirRegister();
+    static Register made(Script script) {
+        Register x = new Register();
         script.on(x);
         return x;
     }
 
     /** Everything that a register tells now and in all the states to which it can go back. */
-    private static String story(ChoirRegister x) {
+    private static String story(Register x) {
         StringBuilder story = new StringBuilder(Facts.of(x));
         while (x.recordedStates() > 0) {
             story.append("\nundo ").append(x.undo()).append(' ').append(Facts.of(x));
