@@ -30,7 +30,10 @@ final class CountTests {
         favoursRunUp();
         theChoirWithoutFavourLendsAgain();
         thePurseRunsBelowNothing();
+        lendingsAddUp();
+        feesAddUp();
         everyPlaceOfEveryLine();
+        thirtySingersInPews();
         askingTwice();
         theLastCall();
     }
@@ -399,6 +402,47 @@ final class CountTests {
         Checks.same("47: lending is no collection", 0, x.collected());
     }
 
+    private static void lendingsAddUp() {
+        Register x = new Register();
+        addSingers(x, 2);
+        int due = 50;
+        int[] days = {5, 90, 7, 1};
+        for (int i = 0; i < days.length; i++) {
+            x.lend(i % 2, i, days[i]);
+            due += 2 * days[i];
+            Checks.same("45: lending " + i, due, x.purse());
+            Checks.same("46: lending " + i, due, x.purseByAccounts());
+            x.passDays(91);
+        }
+        x.announce(400, 3);
+        x.setLine(0, 1, 3, 10, 30);
+        x.passDays(99);
+        Checks.same("45: a feast after them", due + 6 - 3, x.purse());
+        Checks.same("46: a feast after them", due + 6 - 3, x.purseByAccounts());
+    }
+
+    /** Three of five borrowed singers sing at a feast, and two of those at the next one. */
+    private static void feesAddUp() {
+        Register x = new Register();
+        int[] fee = {5, 9, 2, 8, 3};
+        for (int i = 0; i < fee.length; i++) {
+            x.borrow(i, fee[i], 150, i % 2 == 0 ? 10 : 30, 40, 90);
+        }
+        x.announce(10, 1);
+        x.announce(20, 2);
+        x.setLine(0, 1, 3, 20, 30);
+        x.setLine(1, 0, 1, 20, 30);
+        x.setLine(1, 2, 1, 20, 30);
+        x.passDays(10);
+        Checks.same("48: three", 10, x.fees());
+        Checks.same("45: three", 43, x.purse());
+        Checks.same("46: three", 43, x.purseByAccounts());
+        x.passDays(10);
+        Checks.same("48: two more", 17, x.fees());
+        Checks.same("45: two more", 40, x.purse());
+        Checks.same("46: two more", 40, x.purseByAccounts());
+    }
+
     private static void everyPlaceOfEveryLine() {
         for (int singers = 22; singers <= 26; singers++) {
             Register x = new Register();
@@ -419,6 +463,48 @@ final class CountTests {
             Checks.same("47: collected" + what, 3 * (24 - open), x.collected());
             Checks.same("49: fines" + what, 3 * open, x.fines());
         }
+    }
+
+    /** Every fifth singer sings nothing of the feast; the others are told, the highest ones first. */
+    private static void thirtySingersInPews() {
+        Register x = new Register();
+        for (int singer = 0; singer < 30; singer++) {
+            int lowest = singer % 5 == 0 ? 40 : 10;
+            x.register(20, 200 - singer / 2, lowest, 48, 0);
+        }
+        x.announce(1, 1);
+        for (int line = 0; line < 4; line++) {
+            x.setLine(0, line, 6, 10, 30);
+        }
+        for (int days = 0; days < 2; days++) {
+            int told = 0;
+            for (int singer = 0; singer < 30; singer++) {
+                boolean sings = singer % 5 != 0;
+                int line = told / 6;
+                String what = " of " + singer + " on day " + days;
+                Checks.same("35: line" + what, sings ? line : -1, x.lineOf(0, singer));
+                int rank = rankOfThirty(singer, line);
+                Checks.same("41: pew" + what, sings ? rank / 2 : -1, x.pewOf(0, singer));
+                Checks.same("42: seat" + what, sings ? rank % 2 : -1, x.seatOf(0, singer));
+                told += sings ? 1 : 0;
+            }
+            x.passDays(1);
+        }
+    }
+
+    /** How many of the six singers of a line sit before one of them. */
+    private static int rankOfThirty(int singer, int line) {
+        int told = 0;
+        int before = 0;
+        for (int other = 0; other < 30; other++) {
+            if (other % 5 == 0) {
+                continue;
+            }
+            boolean isLower = other / 2 > singer / 2 || other / 2 == singer / 2 && other < singer;
+            before += told / 6 == line && isLower ? 1 : 0;
+            told++;
+        }
+        return before;
     }
 
     // ---- calls
