@@ -14,6 +14,7 @@ public final class AllTests {
         CountTests.run();
         DayTests.run();
         LineupTests.run();
+        EveryWayTests.run();
         LetterEdgeTests.run();
         RestoreTests.run();
         ModelTests.run();

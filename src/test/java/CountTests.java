@@ -34,6 +34,8 @@ final class CountTests {
         feesAddUp();
         everyPlaceOfEveryLine();
         thirtySingersInPews();
+        thirtySingersAtThreeFeasts();
+        thirtySingersWhoSangDescants();
         askingTwice();
         theLastCall();
     }
@@ -505,6 +507,53 @@ final class CountTests {
             told++;
         }
         return before;
+    }
+
+    /** Four of five singers sing one line each of three feasts, at each feast another one; two feasts are held. */
+    private static void thirtySingersAtThreeFeasts() {
+        Register x = new Register();
+        for (int singer = 0; singer < 30; singer++) {
+            int note = 8 * ((singer + 1) % 5);
+            x.register(20, 150, note, note, 0);
+        }
+        for (int feast = 0; feast < 3; feast++) {
+            x.announce(feast + 1, 1);
+            for (int line = 0; line < 4; line++) {
+                int note = 8 * ((line + feast) % 4);
+                x.setLine(feast, line, 6, note, note);
+            }
+        }
+        for (int day = 0; day <= 2; day++) {
+            for (int singer = 0; singer < 30; singer++) {
+                int kind = (singer + 1) % 5;
+                for (int feast = 0; feast < 3; feast++) {
+                    int want = kind == 4 ? -1 : (kind - feast + 4) % 4;
+                    Checks.same("35: on day " + day + " of " + singer, want, x.lineOf(feast, singer));
+                }
+            }
+            x.passDays(1);
+        }
+    }
+
+    /** The last two of thirty singers take turns, as told before the feasts and after them. */
+    private static void thirtySingersWhoSangDescants() {
+        Register x = new Register();
+        addSingers(x, 28);
+        x.register(20, 150, 40, 48, 0);
+        x.register(20, 150, 40, 48, 0);
+        for (int feast = 0; feast < 6; feast++) {
+            x.announce(feast + 1, 1);
+            x.setLine(feast, 0, 2, 44, 44);
+        }
+        for (int day = 0; day <= 6; day++) {
+            for (int feast = 5; feast >= 0; feast--) {
+                String what = " on day " + day + " of feast " + feast;
+                Checks.same("40: descant" + what, 28 + feast % 2, x.descantIn(feast));
+            }
+            Checks.same("29: singer 28 on day " + day, (day + 1) / 2, x.descantsOf(28));
+            Checks.same("29: singer 29 on day " + day, day / 2, x.descantsOf(29));
+            x.passDays(1);
+        }
     }
 
     // ---- calls

@@ -19,6 +19,7 @@ final class DayTests {
         breakingHinders(0);
         breakingHinders(7);
         breakingSilencesLineups();
+        voicesBreakOneByOne();
         noBreakWithoutNeed();
         nextToBreakIsLaterThanToday();
         borrowedFor(1);
@@ -161,6 +162,33 @@ final class DayTests {
             Checks.same("35: held on day " + day[i], line[i], x.lineOf(i, 0));
         }
         Checks.same("28: before and after", 2, x.feastsOf(0));
+    }
+
+    /** Four singers of the same range, of whom three break, at four feasts that are not announced in their order. */
+    private static void voicesBreakOneByOne() {
+        Register x = new Register();
+        int[] breakAge = {13, 0, 12, 17};
+        for (int age : breakAge) {
+            x.register(11, 150, 20, 30, age);
+        }
+        int[] day = {500, 100, 900, 2300};
+        for (int feast = 0; feast < day.length; feast++) {
+            x.announce(day[feast], 1);
+            x.setLine(feast, 0, 6, 20, 30);
+            x.setLine(feast, 1, 6, 8, 18);
+        }
+        int low = ChoirRegister.TOO_LOW;
+        int high = ChoirRegister.TOO_HIGH;
+        int[][] whyNotHigh = {{0, 0, high, 0}, {0, 0, 0, 0}, {high, 0, high, 0}, {high, 0, high, high}};
+        int[][] whyNotLow = {{low, low, 0, low}, {low, low, low, low}, {0, low, 0, low}, {0, low, 0, 0}};
+        for (int feast = 0; feast < day.length; feast++) {
+            for (int singer = 0; singer < breakAge.length; singer++) {
+                String what = " of singer " + singer + " on day " + day[feast];
+                Checks.same("34: old range" + what, whyNotHigh[feast][singer], x.whyNot(feast, singer, 0));
+                Checks.same("34: new range" + what, whyNotLow[feast][singer], x.whyNot(feast, singer, 1));
+                Checks.same("35: line" + what, whyNotHigh[feast][singer] == 0 ? 0 : 1, x.lineOf(feast, singer));
+            }
+        }
     }
 
     private static void noBreakWithoutNeed() {

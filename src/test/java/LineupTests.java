@@ -23,6 +23,8 @@ final class LineupTests {
         noLineForOneWhoIsNotNeeded();
         roomIsMadeAfterOthersAreTold();
         roomIsMadeBesideOthersWhoAreTooMany();
+        thoseWhoSingNothingCountForNothing();
+        roomIsMadeThroughAllLines();
         linesWithPlacesAreTakenInTurn();
         descantOnlyOfLineZero();
         descantsBeforeAgeBeforeNumber();
@@ -310,6 +312,45 @@ final class LineupTests {
             Checks.same("35: one too many for line 2, singer " + singer, want[singer], x.lineOf(0, singer));
         }
         Checks.same("37: all are filled", 0, x.shortfall(0));
+    }
+
+    /** Singers who can sing none of the lines stand before, between and after the two who must share them. */
+    private static void thoseWhoSingNothingCountForNothing() {
+        int[] none = {40, 48};
+        Register x = threeLines(none, new int[] {10, 20}, none, none, new int[] {10, 10}, none);
+        int[] want = {-1, 1, -1, -1, 0, -1};
+        for (int singer = 0; singer < want.length; singer++) {
+            Checks.same("35: two of six, singer " + singer, want[singer], x.lineOf(0, singer));
+        }
+        Checks.same("37: line 2 is open", 1, x.shortfall(0));
+        x.excuse(1, 1, 1);
+        Checks.same("35: the other one stays in line 0", 0, x.lineOf(0, 4));
+        Checks.same("37: lines 1 and 2 are open", 2, x.shortfall(0));
+    }
+
+    /** Lines 0 to 3 lie one above the other; each singer can sing two of them, the last one the lowest alone. */
+    private static void roomIsMadeThroughAllLines() {
+        Register x = new Register();
+        x.announce(1, 1);
+        for (int line = 0; line < 4; line++) {
+            x.setLine(0, line, 1, 10 + 10 * line, 10 + 10 * line);
+        }
+        for (int singer = 0; singer < 3; singer++) {
+            x.register(20, 150, 10 + 10 * singer, 20 + 10 * singer, 0);
+        }
+        for (int singer = 0; singer < 3; singer++) {
+            Checks.same("35: no need to make room, singer " + singer, singer, x.lineOf(0, singer));
+        }
+        x.register(20, 150, 10, 10, 0);
+        for (int singer = 0; singer < 3; singer++) {
+            Checks.same("35: each makes room, singer " + singer, singer + 1, x.lineOf(0, singer));
+        }
+        Checks.same("35: for the last one", 0, x.lineOf(0, 3));
+        x.setLine(0, 2, 0, 30, 30);
+        int[] want = {0, 1, 3, -1};
+        for (int singer = 0; singer < want.length; singer++) {
+            Checks.same("35: line 2 has no places, singer " + singer, want[singer], x.lineOf(0, singer));
+        }
     }
 
     private static void linesWithPlacesAreTakenInTurn() {
